@@ -1,0 +1,64 @@
+/** Promise 9: of a block in the latest frame that was taken. */
+public final class BlockTest {
+    public static void main(String[] args) {
+        FilmBlocks film = HeaderMaker.of(3, 2).film();
+        Check.dueThrow("no picture", IllegalStateException.class, () -> film.block(-1, 0, 9));
+        Films.take("a first frame", film, Films.first(0).tokens(7, 9, 8, 10, 7, 3).put(0, 3));
+        // In order: (0,0) (1,0) (1,1) (0,1) (2,1) (2,0), which ends at once.
+        int[] numbers = {1, 2 + 1, 0 + 3, -2 + 1, -1 + (-1 + 3) / 2, 1 + (0 + 3) / 2};
+        blocks("first", film, new int[] {2, 2, 2, 2, 2, 2}, new int[6], new int[6], numbers);
+        Bits between = Films.between().put("1 110 01 0").put("110").put(31, 5).put(1, 1)
+            .put(30, 5).put(0, 1).put("1111 0 10 1110").tokens(7, 7, 7, 7, 7, 2).put(2, 2);
+        Films.take("a frame between", film, between);
+        // Coded are five: (0,0) moved, (1,0) golden, (1,1) previous, (0,1) new, (2,1) moved.
+        blocks("between", film, new int[] {3, 4, 0, 2, 1, 3}, new int[] {-31, 0, 0, 0, 0, -31},
+            new int[] {30, 0, 0, 0, 0, 30}, new int[] {1, 1, 0, 1, 2, 3});
+        Films.refuse("a fault", film, Films.between().put("1 110 11"), 5, 11);
+        blocks("behind a fault", film, new int[] {3, 4, 0, 2, 1, 3},
+            new int[] {-31, 0, 0, 0, 0, -31}, new int[] {30, 0, 0, 0, 0, 30},
+            new int[] {1, 1, 0, 1, 2, 3});
+        exceptions(film);
+        Films.take("none is coded", film, Films.between().put("0 110 10"));
+        blocks("none", film, new int[6], new int[6], new int[6], new int[6]);
+        belowZeroIsZero(film);
+        Check.end();
+    }
+
+    /** Rows of what is due, in raster. */
+    private static void blocks(String what, FilmBlocks film, int[] modes, int[] across,
+            int[] down, int[] numbers) {
+        for (int i = 0; i < 6; i++) {
+            String which = what + ", block " + i;
+            Check.due(which + ": mode", modes[i], film.block(i % 3, i / 3, 0));
+            Check.due(which + ": across", across[i], film.block(i % 3, i / 3, 1));
+            Check.due(which + ": down", down[i], film.block(i % 3, i / 3, 2));
+            Check.due(which + ": number", numbers[i], film.block(i % 3, i / 3, 3));
+        }
+    }
+
+    private static void exceptions(FilmBlocks film) {
+        int[][] wrong = {{-1, 0}, {0, -1}, {3, 0}, {0, 2}, {2, 2}, {Integer.MAX_VALUE, 1},
+            {0, Integer.MIN_VALUE}};
+        for (int[] place : wrong) {
+            for (int what = -1; what < 5; what++) {
+                int asked = what;
+                Check.dueThrow("block " + place[0] + ", " + place[1] + ", " + what,
+                    IndexOutOfBoundsException.class,
+                    () -> film.block(place[0], place[1], asked));
+            }
+        }
+        int[] wrongWhats = {-1, 4, Integer.MAX_VALUE, Integer.MIN_VALUE};
+        for (int what : wrongWhats) {
+            Check.dueThrow("block what " + what, IllegalArgumentException.class,
+                () -> film.block(2, 1, what));
+        }
+    }
+
+    private static void belowZeroIsZero(FilmBlocks film) {
+        Films.take("0 below 0", film, Films.between().put("1 0 110 01")
+            .put("110 00000 1 00000 1").tokens(0));
+        Check.due("mode", 3, film.block(0, 0, 0));
+        Check.due("across", 0, film.block(0, 0, 1));
+        Check.due("down", 0, film.block(0, 0, 2));
+    }
+}

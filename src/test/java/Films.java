@@ -1,0 +1,84 @@
+/** What several tests do with an object. */
+final class Films {
+    private Films() {
+    }
+
+    /** A frame that is not between, by a scale. */
+    static Bits first(int scale) {
+        return new Bits().put(0, 1).put(scale, 3).put(0, 1);
+    }
+
+    /** A frame that is between, by the first scale, not kept: its flags follow. */
+    static Bits between() {
+        return new Bits().put(1, 1).put(0, 3).put(0, 1);
+    }
+
+    /** Reads a frame that has no fault, and looks at what it took. */
+    static void take(String what, FilmBlocks film, Bits frame) {
+        int before = film.frames();
+        frame.feedTo(film);
+        Check.due(what + ": frame()", 0, film.frame());
+        Check.due(what + ": taken()", frame.length(), film.taken());
+        Check.due(what + ": frames()", before + 1, film.frames());
+    }
+
+    /** Reads a frame that has a fault, and looks that it changed nothing but the tape. */
+    static void refuse(String what, FilmBlocks film, Bits frame, int fault, int taken) {
+        String before = state(film);
+        frame.feedTo(film);
+        Check.due(what + ": frame()", fault, film.frame());
+        Check.due(what + ": taken()", taken, film.taken());
+        Check.due(what + ": the state is the same", before.equals(state(film)));
+        Check.dueThrow(what + ": the tape is empty", IllegalArgumentException.class,
+            () -> film.end(1));
+    }
+
+    /** All answers that do not change the object, but what it took. */
+    static String state(FilmBlocks film) {
+        StringBuilder state = new StringBuilder();
+        state.append(film.frames()).append(' ').append(film.sum());
+        for (int what = 0; what < 5; what++) {
+            try {
+                state.append(' ').append(film.head(what));
+            } catch (IllegalStateException e) {
+                state.append(" none");
+            }
+        }
+        for (int i = 0; i < 36; i++) {
+            addBlock(state, film, i % 6, i / 6);
+        }
+        for (int i = 0; i < 48 * 48; i++) {
+            addSample(state, film, i % 48, i / 48);
+        }
+        return state.toString();
+    }
+
+    private static void addBlock(StringBuilder state, FilmBlocks film, int column, int row) {
+        for (int what = 0; what < 4; what++) {
+            try {
+                state.append(' ').append(film.block(column, row, what));
+            } catch (IllegalStateException | IndexOutOfBoundsException e) {
+                state.append(" none");
+            }
+        }
+    }
+
+    private static void addSample(StringBuilder state, FilmBlocks film, int x, int y) {
+        try {
+            state.append(' ').append(film.sample(x, y, false));
+            state.append(' ').append(film.sample(x, y, true));
+        } catch (IllegalStateException | IndexOutOfBoundsException e) {
+            state.append(" none");
+        }
+    }
+
+    /** What each sample of a block becomes by a number at place 0 alone, times its factor. */
+    static int level(int number) {
+        long row = Math.floorDiv(11585L * number + 16384, 32768L);
+        return (int) Math.floorDiv(11585L * row + 16384, 32768L);
+    }
+
+    static int inByte(int value) {
+        return Math.max(0, Math.min(255, value));
+    }
+}

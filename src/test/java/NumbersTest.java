@@ -1,0 +1,134 @@
+import java.util.Random;
+
+/** Promise 5, NUMBERS: guesses, factors, bounds, and the sums of waves. */
+public final class NumbersTest {
+    public static void main(String[] args) {
+        guessesOfNewBlocks();
+        guessesByKind();
+        halvesAreCutTowardsZero();
+        factors();
+        bounds();
+        sumsOfWaves();
+        Check.end();
+    }
+
+    private static void numbers(String what, FilmBlocks film, int columns, int[] due) {
+        for (int i = 0; i < due.length; i++) {
+            Check.due(what + ", " + i, due[i], film.block(i % columns, i / columns, 3));
+        }
+    }
+
+    private static void guessesOfNewBlocks() {
+        FilmBlocks film = HeaderMaker.of(2, 2).film();
+        // In order (0,0) (1,0) (1,1) (0,1): 23, -1, 2, 1.
+        Films.take("new", film, Films.first(0).tokens(18).put("0 0010").tokens(8, 9, 7, 3)
+            .put(0, 3));
+        numbers("new", film, 2, new int[] {23, 22, 24, 2 + (24 + 22) / 2});
+        // What others guess by is the number with its guess, and no factor is in it.
+        Films.take("zeros guess on", film, Films.first(0).tokens(20).put("1 111111111")
+            .tokens(2).put(0, 2).tokens(0));
+        numbers("zeros", film, 2, new int[] {-612, -612, -612, -612});
+    }
+
+    /** Raster of three by two: previous, golden, moved; golden, not coded, previous. */
+    private static void guessesByKind() {
+        FilmBlocks film = HeaderMaker.of(3, 2).film();
+        Films.take("a picture", film, Films.first(0).tokens(3).put(0, 3));
+        // In order: (0,0) previous, (1,0) golden, (1,1) not coded, (0,1) golden, (2,1) previous,
+        // (2,0) moved.
+        Bits frame = Films.between().put("1 100 0 101").put("0 1111 1111 0 110 000010 000010")
+            .tokens(16).put("0 00").tokens(17).put("0 000").tokens(9, 7, 11).put("0")
+            .tokens(3).put(0, 3);
+        Films.take("by kind", film, frame);
+        // (2,0): none beside it, the latest is (0,0). (0,1): above is of another kind, the latest
+        // is (1,0). (2,1): above is of its kind.
+        numbers("by kind", film, 3, new int[] {9, 13, 3 + 9, 2 + 13, 0, 1 + 12});
+        // New blocks apart, and the latest of them in raster, not in order.
+        frame = Films.between().put("1 0 0 100 0 0").put("10 10 0 10")
+            .tokens(14).put("0").tokens(13).put("0").tokens(12).put("0").tokens(7)
+            .tokens(2).put(1, 2);
+        Films.take("apart", film, frame);
+        // In order: (0,0) new 6, (1,0) not coded, (1,1) new 5, (0,1) previous 4, (2,1) not coded,
+        // (2,0) new 1.
+        numbers("apart", film, 3, new int[] {6, 0, 1 + 6, 4, 5 + 7, 0});
+        Films.take("nothing of an earlier frame", film,
+            Films.between().put("0 100 0 101").put("10").tokens(7, 0));
+        numbers("alone", film, 3, new int[] {0, 0, 0, 0, 1, 0});
+    }
+
+    private static void halvesAreCutTowardsZero() {
+        FilmBlocks film = HeaderMaker.of(2, 2).film();
+        Films.take("below 0", film, Films.first(0).tokens(9, 10, 5).put(0, 3)
+            .tokens(12).put("1").tokens(3).put(0, 3));
+        // (1,0): -2 + 2 = 0; (0,1): -4 + 2 = -2; (1,1): (0 - 2) / 2 = -1.
+        numbers("even", film, 2, new int[] {2, 0, -2, -1});
+        Films.take("odd below 0", film, Films.first(0).tokens(7, 10, 5).put(0, 3)
+            .tokens(11).put("1").tokens(3).put(0, 3));
+        // (1,0): -1; (0,1): -2; (-3) / 2 is -1.
+        numbers("odd", film, 2, new int[] {1, -1, -2, -1});
+        Films.take("odd above 0", film, Films.first(0).tokens(7, 7, 5).put(0, 3)
+            .tokens(9).tokens(3).put(0, 3));
+        numbers("odd", film, 2, new int[] {1, 2, 3, 2});
+    }
+
+    private static void factors() {
+        int[][] all = {{0, 0, 2}, {1, 199, 2}, {1, 300, 3}, {1, 399, 3}, {33, 100, 33},
+            {33, 101, 33}, {33, 103, 33}, {33, 104, 34}, {5, 39, 2}, {5, 60, 3}, {199, 1, 2},
+            {7, 1000, 70}};
+        for (int[] one : all) {
+            HeaderMaker maker = HeaderMaker.of(1, 1).steps(one[0]);
+            maker.scales[5] = one[1];
+            FilmBlocks film = maker.film();
+            Films.take("factor", film, Films.first(5).tokens(17).put("1 010").tokens(0));
+            Check.due(one[0] + " by " + one[1], Films.inByte(128 + Films.level(-15 * one[2])),
+                film.sample(4, 4, false));
+        }
+    }
+
+    /** At x = 0 the waves of places 0 and 14 are alike: what goes beyond a bound goes out. */
+    private static void bounds() {
+        HeaderMaker maker = HeaderMaker.of(1, 1).steps(255);
+        maker.scales[0] = 1023;
+        FilmBlocks film = maker.film();
+        Films.take("above and below", film, Films.first(0).tokens(20).put("0 111110100")
+            .tokens(27).put("1 010").tokens(0));
+        Check.due("it is 2608 too much", 255, film.sample(0, 0, false));
+        Films.take("both beyond", film, Films.first(0).tokens(20).put("0 000000000")
+            .tokens(27).put("0 001").tokens(0));
+        Check.due("above", 255, film.sample(0, 0, false));
+        Bits frame = Films.first(0).tokens(20).put("0 000000000").tokens(6).put("000100")
+            .tokens(20).put("1 111111111").tokens(0);
+        Films.take("32767 and -32768", film, frame);
+        Check.due("they go out", 128, film.sample(0, 0, false));
+        Check.due("they add up", 255, film.sample(1, 0, false));
+        frame = Films.first(0).tokens(20).put("1 000000000").tokens(6).put("000100")
+            .tokens(20).put("0 111111111").tokens(0);
+        Films.take("-32768 and 32767", film, frame);
+        Check.due("they go out", 128, film.sample(7, 7, false));
+        Check.due("they add up", 0, film.sample(2, 7, false));
+    }
+
+    /** Whatever the places hold, the samples come near to the sums without rounding. */
+    private static void sumsOfWaves() {
+        Random random = new Random(7);
+        FilmBlocks film = HeaderMaker.of(1, 1).film();
+        for (int run = 0; run < 200; run++) {
+            int[] numbers = new int[64];
+            Bits frame = Films.first(0);
+            for (int place = 0; place < 64; place++) {
+                int size = random.nextInt(16);
+                boolean below = random.nextBoolean();
+                numbers[place] = 2 * (below ? -21 - size : 21 + size);
+                frame.tokens(18).put(below ? 1 : 0, 1).put(size, 4);
+            }
+            Films.take("sum", film, frame);
+            for (int i = 0; i < 64; i++) {
+                double exact = 128 + Waves.exact(numbers, i % 8, i / 8);
+                double away = exact - film.sample(i % 8, i / 8, false);
+                Check.due("run " + run + ", sample " + i + " is " + away + " away",
+                    Math.abs(Math.max(0, Math.min(255, exact))
+                        - film.sample(i % 8, i / 8, false)) < 2.5);
+            }
+        }
+    }
+}

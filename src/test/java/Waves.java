@@ -1,0 +1,43 @@
+/** What is added by one number, from cosines and a table of places that is written out. */
+final class Waves {
+    /** By row and column of the square: which place it is. */
+    private static final int[] PLACES = {
+        0, 1, 5, 6, 14, 15, 27, 28,
+        2, 4, 7, 13, 16, 26, 29, 42,
+        3, 8, 12, 17, 25, 30, 41, 43,
+        9, 11, 18, 24, 31, 40, 44, 53,
+        10, 19, 23, 32, 39, 45, 52, 54,
+        20, 22, 33, 38, 46, 51, 55, 60,
+        21, 34, 37, 47, 50, 56, 59, 61,
+        35, 36, 48, 49, 57, 58, 62, 63};
+
+    private Waves() {
+    }
+
+    static long t(int x, int u) {
+        return u == 0 ? 11585 : Math.round(16384 * Math.cos((2 * x + 1) * u * Math.PI / 16));
+    }
+
+    /** What a number, its factor taken in, adds to sample (x, y), if all others are 0. */
+    static int alone(int place, int number, int x, int y) {
+        int spot = 0;
+        while (PLACES[spot] != place) {
+            spot++;
+        }
+        long row = Math.floorDiv(t(x, spot % 8) * number + 16384, 32768L);
+        return (int) Math.floorDiv(t(y, spot / 8) * row + 16384, 32768L);
+    }
+
+    /** What 64 numbers add to sample (x, y), without any rounding. */
+    static double exact(int[] numbers, int x, int y) {
+        double sum = 0;
+        for (int spot = 0; spot < 64; spot++) {
+            sum += numbers[PLACES[spot]] * wave(x, spot % 8) * wave(y, spot / 8);
+        }
+        return sum;
+    }
+
+    private static double wave(int x, int u) {
+        return u == 0 ? Math.sqrt(0.125) : Math.cos((2 * x + 1) * u * Math.PI / 16) / 2;
+    }
+}

@@ -831,8 +831,9 @@ public final class FilmBlocks {
             for (int row = 0; row < header.rows(); row++) {
                 for (int column = 0; column < header.columns(); column++) {
                     int block = frame.index(column, row);
+                    Picture base = frame.mode(block) == GOLDEN ? golden : previous;
                     makeAdded(frame, header, block);
-                    paintBlock(frame, block, frame.mode(block) == GOLDEN ? golden : previous, next);
+                    paintBlock(frame, column, row, base, next);
                 }
             }
             if (header.limit() != 0) {
@@ -840,12 +841,11 @@ public final class FilmBlocks {
             }
         }
 
-        private void paintBlock(Frame frame, int block, Picture base, Picture next) {
-            int left = block % frame.columns() * SIDE;
-            int top = block / frame.columns() * SIDE;
+        private void paintBlock(Frame frame, int column, int row, Picture base, Picture next) {
+            int block = frame.index(column, row);
             for (int i = 0; i < PLACES; i++) {
-                int x = left + i % SIDE;
-                int y = top + i / SIDE;
+                int x = column * SIDE + i % SIDE;
+                int y = row * SIDE + i / SIDE;
                 int under = frame.mode(block) == NEW
                     ? 128
                     : moved(base, x, y, frame.across(block), frame.down(block));
@@ -870,7 +870,7 @@ public final class FilmBlocks {
             sumWaves(halfway, square);
         }
 
-        /** Does so for each row, and lays the rows down as columns: twice is all of it. */
+        /** Sums the waves of each row, and lays it down as a column: done twice, it is all done. */
         private void sumWaves(int[] from, int[] to) {
             for (int row = 0; row < SIDE; row++) {
                 sumRow(from, row * SIDE);
@@ -880,7 +880,7 @@ public final class FilmBlocks {
             }
         }
 
-        /** In long: eight of the dearest waves go beyond an int. Most numbers are 0. */
+        /** In long, as eight of the largest numbers go beyond an int. Most numbers are 0. */
         private void sumRow(int[] from, int start) {
             Arrays.fill(sums, 16384);
             for (int u = 0; u < SIDE; u++) {

@@ -94,7 +94,8 @@ public final class FlagsTest {
         }
         Films.refuse("37", film, Films.between().put("1").put(run(37)).put(-1, 16), 5, 14);
         Films.refuse("2 of 1", film(1, 1), Films.between().put("1 100").put(-1, 16), 5, 9);
-        Films.refuse("39 of 1", film(1, 1), Films.between().put("1").put(run(39)).put(-1, 9), 5, 14);
+        Films.refuse("39 of 1", film(1, 1), Films.between().put("1").put(run(39)).put(-1, 9), 5,
+            14);
     }
 
     private static void smallPictures() {

@@ -110,7 +110,7 @@ public final class FrameTest {
         Films.take("first", wide, Films.first(0).tokens(4).put(21, 8));
         Films.refuse("END within a run", wide, new Bits().put("1 000 0 1 110 00 111 11"), 1, 16);
         Films.refuse("PLACE at the last bit", film, Films.first(0).tokens(6).put("111111"), 6, 16);
-        Films.refuse("END before PLACE", film, Films.first(0).tokens(5).put("111").tokens(6).first(16),
-            1, 16);
+        Films.refuse("END before PLACE", film,
+            Films.first(0).tokens(5).put("111").tokens(6).first(16), 1, 16);
     }
 }

@@ -5,8 +5,8 @@ public final class ModelTest {
     private static final int RUNS = 120;
     private static final int CALLS = 110;
     // Tokens by how often they stand in a tree; long ways are rare, so that frames are taken.
-    private static final int[] OFTEN = {0, 1, 1, 2, 2, 3, 4, 5, 7, 7, 8, 8, 9, 9, 10, 10, 11, 12, 13,
-        14, 15, 16, 17, 18, 19, 20, 21, 22, 23, 24, 25, 26, 28, 28, 29, 29, 30, 31};
+    private static final int[] OFTEN = {0, 1, 1, 2, 2, 3, 4, 5, 7, 7, 8, 8, 9, 9, 10, 10, 11, 12,
+        13, 14, 15, 16, 17, 18, 19, 20, 21, 22, 23, 24, 25, 26, 28, 28, 29, 29, 30, 31};
 
     private static final int[] headerFaults = new int[7];
     private static final int[] frameFaults = new int[7];
@@ -41,7 +41,8 @@ public final class ModelTest {
                 feed(headerBits(random), film, model);
                 same(seed, call, "header()", model.header(), film.header(), headerFaults);
             } else if (film.taken() > 0 && hasHeader(film)) {
-                feed(frameBits(random, film.head(0) * film.head(1), film.frames() > 0), film, model);
+                int blocks = film.head(0) * film.head(1);
+                feed(frameBits(random, blocks, film.frames() > 0), film, model);
                 same(seed, call, "frame()", model.frame(), film.frame(), frameFaults);
             }
             compare("run " + seed + ", call " + call, film, model, random);

@@ -46,7 +46,8 @@ public final class MovesTest {
             int y = i / WIDTH;
             // Halves: below and above the middle of twice the place.
             int one = at(before, Math.floorDiv(2 * x + v, 2), Math.floorDiv(2 * y + w, 2));
-            int other = at(before, Math.floorDiv(2 * x + v + 1, 2), Math.floorDiv(2 * y + w + 1, 2));
+            int other = at(before, Math.floorDiv(2 * x + v + 1, 2),
+                Math.floorDiv(2 * y + w + 1, 2));
             Check.due("moved " + v + ", " + w + ": sample " + x + ", " + y, (one + other) / 2,
                 film.sample(x, y, false));
             Check.due("golden stays", before[i], film.sample(x, y, true));

@@ -105,8 +105,9 @@ public final class SmoothingTest {
             int c = plain.sample(8, y, false);
             int f = softened(plain.sample(6, y, false) - 3 * b + 3 * c
                 - plain.sample(9, y, false) + 4, limit);
-            Check.due(what + ", line " + y + ": b", Films.inByte(b + f), smooth.sample(7, y, false));
-            Check.due(what + ", line " + y + ": c", Films.inByte(c - f), smooth.sample(8, y, false));
+            String line = what + ", line " + y;
+            Check.due(line + ": b", Films.inByte(b + f), smooth.sample(7, y, false));
+            Check.due(line + ": c", Films.inByte(c - f), smooth.sample(8, y, false));
             beyond |= (b + f < 0 ? 1 : 0) | (b + f > 255 ? 2 : 0);
             beyond |= (c - f < 0 ? 4 : 0) | (c - f > 255 ? 8 : 0);
         }

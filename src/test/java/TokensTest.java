@@ -13,6 +13,7 @@ public final class TokensTest {
         beyondTheLastPlace();
         treesByPlace();
         treesOfOneToken();
+        deepestTokens();
         Check.end();
     }
 
@@ -212,6 +213,20 @@ public final class TokensTest {
         Check.due("the first", 0, film.block(0, 0, 3));
         Check.due("the second", 2, film.block(1, 0, 3));
         Check.due("1 at place 8", 128 + Waves.alone(8, FACTOR, 2, 6), film.sample(2, 6, false));
+    }
+
+    private static void deepestTokens() {
+        String zeros = "0".repeat(12) + HeaderMaker.leaf(7) + HeaderMaker.leaf(9)
+            + HeaderMaker.leaf(0).repeat(11);
+        String ones = ("0" + HeaderMaker.leaf(0)).repeat(11) + "0" + HeaderMaker.leaf(8)
+            + HeaderMaker.leaf(10);
+        FilmBlocks film = HeaderMaker.of(2, 1).trees(zeros, ones).steps(FACTOR).film();
+        Films.take("twelve bits for a token", film, Films.first(0).put("0".repeat(12))
+            .put("0".repeat(11)).put("1").put("1".repeat(12)).put("1".repeat(11)).put("0 0 0"));
+        Check.due("by 12 bits 0", 1, film.block(0, 0, 3));
+        Check.due("by 11 bits 0 and a bit 1", 3, film.block(1, 0, 3));
+        int level = Waves.alone(0, FACTOR, 0, 0) + Waves.alone(1, -2 * FACTOR, 0, 0);
+        Check.due("by 12 bits 1", Math.abs(128 + level - film.sample(0, 0, false)) <= 1);
     }
 
     private static void treesOfOneToken() {

@@ -21,6 +21,8 @@ public final class BlockTest {
         Films.take("none is coded", film, Films.between().put("0 110 10"));
         blocks("none", film, new int[6], new int[6], new int[6], new int[6]);
         belowZeroIsZero(film);
+        nothingOfEarlierFrames();
+        lastOfEverySize();
         Check.end();
     }
 
@@ -60,5 +62,62 @@ public final class BlockTest {
         Check.due("mode", 3, film.block(0, 0, 0));
         Check.due("across", 0, film.block(0, 0, 1));
         Check.due("down", 0, film.block(0, 0, 2));
+    }
+
+    /** A block that was moved, and has numbers, has none of it in a frame that does not say so. */
+    private static void nothingOfEarlierFrames() {
+        String[] modes = {"0", "10", "1111", "1110", ""};
+        int[] due = {1, 2, 4, 3, 0};
+        FilmBlocks film = HeaderMaker.of(2, 1).film();
+        Films.take("a picture", film, Films.first(0).numbers(5, 6).tokens(1));
+        Bits moved = Films.between().put("1").runs(2).put("110 00101 1 00011 0 1110")
+            .numbers(9, 11).tokens(1);
+        for (int i = 0; i < modes.length; i++) {
+            for (int times = 0; times < 2; times++) {
+                // Twice, as an object may hold two frames in turn.
+                Films.take("moved", film, moved);
+                blockIs(film, 0, new int[] {3, -5, 3, 9});
+                blockIs(film, 1, new int[] {3, -5, 3, 20});
+            }
+            boolean coded = due[i] != 0;
+            Bits frame = Films.between().put(coded ? 1 : 0, 1).runs(2).put(modes[i])
+                .put(modes[i]);
+            Films.take("mode " + due[i], film, coded ? frame.tokens(1) : frame);
+            blockIs(film, 0, new int[] {due[i], 0, 0, 0});
+            blockIs(film, 1, new int[] {due[i], 0, 0, 0});
+        }
+        Films.take("moved", film, moved);
+        Films.take("moved", film, moved);
+        Films.take("not between", film, Films.first(0).tokens(1));
+        blockIs(film, 0, new int[] {2, 0, 0, 0});
+        blockIs(film, 1, new int[] {2, 0, 0, 0});
+    }
+
+    private static void blockIs(FilmBlocks film, int column, int[] due) {
+        for (int what = 0; what < due.length; what++) {
+            Check.due("block " + column + ", " + what, due[what], film.block(column, 0, what));
+        }
+    }
+
+    /** Of every size: the last column and row are there, and none behind them. */
+    private static void lastOfEverySize() {
+        for (int size = 0; size < 36; size++) {
+            int columns = 1 + size % 6;
+            int rows = 1 + size / 6;
+            FilmBlocks film = HeaderMaker.of(columns, rows).film();
+            Films.take("a picture", film, Films.first(0).numbers(7).tokens(4).put(255, 8));
+            String what = columns + " by " + rows;
+            Check.due(what + ": the last block", 7, film.block(columns - 1, rows - 1, 3));
+            Check.dueThrow(what + ": behind the last column", IndexOutOfBoundsException.class,
+                () -> film.block(columns, 0, 0));
+            Check.dueThrow(what + ": below the last row", IndexOutOfBoundsException.class,
+                () -> film.block(0, rows, 0));
+            int last = film.sample(8 * columns - 1, 8 * rows - 1, false);
+            Check.due(what + ": the last sample", 128 + Films.level(14), last);
+            Check.dueThrow(what + ": right of the last sample", IndexOutOfBoundsException.class,
+                () -> film.sample(8 * columns, 0, false));
+            Check.dueThrow(what + ": below the last sample", IndexOutOfBoundsException.class,
+                () -> film.sample(0, 8 * rows, true));
+        }
     }
 }

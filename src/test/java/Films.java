@@ -1,6 +1,40 @@
 /** What several tests do with an object. */
 final class Films {
+    /** The order of six by six blocks, in raster from 0. */
+    private static final int[] ORDER = {
+        0, 1, 7, 6, 12, 18, 19, 13, 14, 20, 21, 15, 9, 8, 2, 3,
+        4, 5, 11, 10, 16, 22, 23, 17,
+        24, 25, 31, 30, 33, 32, 26, 27,
+        28, 29, 35, 34};
+
     private Films() {
+    }
+
+    /** The order of the blocks of any picture, in raster from 0: those outside are left out. */
+    static int[] order(int columns, int rows) {
+        int[] order = new int[columns * rows];
+        int count = 0;
+        for (int block : ORDER) {
+            if (block % 6 < columns && block / 6 < rows) {
+                order[count] = block / 6 * columns + block % 6;
+                count++;
+            }
+        }
+        return order;
+    }
+
+    /** The flags that tell of each block, in raster, whether it is coded. */
+    static Bits flags(int columns, boolean[] coded) {
+        int[] order = order(columns, coded.length / columns);
+        Bits flags = new Bits().put(coded[order[0]] ? 1 : 0, 1);
+        int from = 0;
+        for (int i = 1; i <= order.length; i++) {
+            if (i == order.length || coded[order[i]] != coded[order[from]]) {
+                flags.runs(i - from);
+                from = i;
+            }
+        }
+        return flags;
     }
 
     /** A frame that is not between, by a scale. */

@@ -1,11 +1,6 @@
 /** Promise 5, FLAGS and MODES: which blocks are coded, in order, and how. */
 public final class FlagsTest {
-    /** The order of six by six blocks, in raster from 0. */
-    private static final int[] ORDER = {
-        0, 1, 7, 6, 12, 18, 19, 13, 14, 20, 21, 15, 9, 8, 2, 3,
-        4, 5, 11, 10, 16, 22, 23, 17,
-        24, 25, 31, 30, 33, 32, 26, 27,
-        28, 29, 35, 34};
+    private static final int[] ORDER = Films.order(6, 6);
 
     public static void main(String[] args) {
         everyRun();
@@ -13,6 +8,8 @@ public final class FlagsTest {
         tooLongRuns();
         smallPictures();
         modes();
+        orderOfEverySize();
+        exactlyAllBlocks();
         Check.end();
     }
 
@@ -23,24 +20,11 @@ public final class FlagsTest {
         return film;
     }
 
-    static String run(int length) {
-        if (length == 1) {
-            return "0";
-        }
-        if (length < 4) {
-            return new Bits().put("10").put(length - 2, 1).text();
-        }
-        if (length < 8) {
-            return new Bits().put("110").put(length - 4, 2).text();
-        }
-        return new Bits().put("111").put(length - 8, 5).text();
-    }
-
     private static void everyRun() {
         FilmBlocks film = film(6, 6);
         for (int length = 1; length < 36; length++) {
             for (int flag = 0; flag < 2; flag++) {
-                Bits frame = Films.between().put(flag, 1).put(run(length)).put(run(36 - length));
+                Bits frame = Films.between().put(flag, 1).runs(length, 36 - length);
                 int coded = flag == 1 ? length : 36 - length;
                 frame.put(0, coded).put(255, 8);
                 String what = "first " + length + " are " + flag;
@@ -67,7 +51,7 @@ public final class FlagsTest {
         Bits frame = Films.between().put(1, 1);
         int coded = 0;
         for (int i = 0; i < lengths.length; i++) {
-            frame.put(run(lengths[i]));
+            frame.runs(lengths[i]);
             coded += i % 2 == 0 ? lengths[i] : 0;
         }
         Films.take("many runs", film, frame.put(0, coded).put(255, 8));
@@ -85,30 +69,30 @@ public final class FlagsTest {
         FilmBlocks film = film(6, 6);
         for (int before = 1; before < 36; before++) {
             for (int length = 36 - before + 1; length <= 39; length++) {
-                Bits frame = Films.between().put(0, 1).put(run(before)).put(run(length));
+                Bits frame = Films.between().put(0, 1).runs(before, length);
                 Bits more = new Bits().put(frame.text()).put(-1, 32);
                 more.feedTo(film);
                 Check.due(before + " and " + length, 5, film.frame());
                 Check.due("taken()", frame.length(), film.taken());
             }
         }
-        Films.refuse("37", film, Films.between().put("1").put(run(37)).put(-1, 16), 5, 14);
+        Films.refuse("37", film, Films.between().put("1").runs(37).put(-1, 16), 5, 14);
         Films.refuse("2 of 1", film(1, 1), Films.between().put("1 100").put(-1, 16), 5, 9);
-        Films.refuse("39 of 1", film(1, 1), Films.between().put("1").put(run(39)).put(-1, 9), 5,
+        Films.refuse("39 of 1", film(1, 1), Films.between().put("1").runs(39).put(-1, 9), 5,
             14);
     }
 
     private static void smallPictures() {
         FilmBlocks film = film(5, 1);
         Films.take("a row", film,
-            Films.between().put("1").put(run(2)).put(run(2)).put(run(1)).put("000").put(255, 8));
+            Films.between().put("1").runs(2, 2, 1).put("000").put(255, 8));
         int[] due = {1, 1, 0, 0, 1};
         for (int column = 0; column < 5; column++) {
             Check.due("column " + column, due[column], film.block(column, 0, 0));
         }
         film = film(2, 5);
-        Films.take("two columns", film, Films.between().put("0").put(run(5)).put(run(1))
-            .put(run(4)).put("0").put(255, 8));
+        Films.take("two columns", film, Films.between().put("0").runs(5, 1, 4)
+            .put("0").put(255, 8));
         for (int i = 0; i < 10; i++) {
             // In order: 0 1 3 2 4 6 7 5 8 9; the sixth is (0, 3).
             Check.due("block " + i, i == 6 ? 1 : 0, film.block(i % 2, i / 2, 0));
@@ -117,7 +101,7 @@ public final class FlagsTest {
 
     private static void modes() {
         FilmBlocks film = film(6, 6);
-        String frame = "1" + run(8) + run(28);
+        String frame = new Bits().put("1").runs(8, 28).text();
         Bits bits = Films.between().put(frame).put("1110").put("0").put("110 00111 0 11111 1")
             .put("10").put("1110").put("110 00000 1 00001 0").put("1111").put("1110").put(255, 8);
         Films.take("modes", film, bits);
@@ -130,10 +114,60 @@ public final class FlagsTest {
             }
         }
         // The latest numbers are of this frame alone.
-        Films.take("no numbers", film, Films.between().put("1").put(run(1)).put("111 11011")
+        Films.take("no numbers", film, Films.between().put("1").runs(1).put("111 11011")
             .put("1110").put(255, 8));
         Check.due("mode", 3, film.block(0, 0, 0));
         Check.due("across", 0, film.block(0, 0, 1));
         Check.due("down", 0, film.block(0, 0, 2));
+    }
+
+    /** Each block of each picture alone is coded: it is the one that is due in order. */
+    private static void orderOfEverySize() {
+        for (int size = 0; size < 36; size++) {
+            int columns = 1 + size % 6;
+            int rows = 1 + size / 6;
+            int blocks = columns * rows;
+            int[] order = Films.order(columns, rows);
+            FilmBlocks film = film(columns, rows);
+            for (int i = 0; i < blocks; i++) {
+                Bits frame = Films.between().put(i == 0 ? 1 : 0, 1);
+                if (i > 0) {
+                    frame.runs(i);
+                }
+                frame.runs(1);
+                if (i < blocks - 1) {
+                    frame.runs(blocks - 1 - i);
+                }
+                String what = columns + " by " + rows + ", number " + i;
+                Films.take(what, film, frame.put(0, 1).put(255, 8));
+                for (int block = 0; block < blocks; block++) {
+                    Check.due(what + ", block " + block, block == order[i] ? 1 : 0,
+                        film.block(block % columns, block / columns, 0));
+                }
+            }
+        }
+    }
+
+    /** A run to the last block is the last run; one block more is 5 RUN, told behind its bits. */
+    private static void exactlyAllBlocks() {
+        for (int size = 0; size < 36; size++) {
+            int columns = 1 + size % 6;
+            int rows = 1 + size / 6;
+            int blocks = columns * rows;
+            FilmBlocks film = film(columns, rows);
+            String what = columns + " by " + rows;
+            Films.take(what + ": all", film,
+                Films.between().put("1").runs(blocks).put(0, blocks).put(255, 8));
+            Films.take(what + ": none", film, Films.between().put("0").runs(blocks));
+            Bits more = Films.between().put("1").runs(blocks + 1);
+            Films.refuse(what + ": one more", film, new Bits().put(more.text()).put(-1, 32), 5,
+                more.length());
+            Bits later = Films.between().put("0");
+            for (int i = 1; i < blocks; i++) {
+                later.runs(1);
+            }
+            Films.refuse(what + ": one more in the end", film,
+                new Bits().put(later.runs(2).text()).put(0, 32), 5, later.length());
+        }
     }
 }

@@ -9,6 +9,8 @@ public final class HeaderTest {
         successDropsThePicture();
         theFirstFaultCounts();
         everyFieldStandsWhereItShould();
+        treeFaultsAtTheLastBit();
+        thirtyTwoTokensInAnyForm();
         Check.end();
     }
 
@@ -179,5 +181,58 @@ public final class HeaderTest {
             }
         }
         return true;
+    }
+
+    /** 3 TREE is told at its bit: nothing behind it is wanted, and one bit less is 1 END. */
+    private static void treeFaultsAtTheLastBit() {
+        Bits deep = HeaderMaker.of(1, 1).trees("0".repeat(13), "").bits();
+        // Of 32 tokens the last one leaves five trees open; a bit 1 would be the 33rd token.
+        Bits wide = HeaderMaker.of(1, 1).trees("00000" + full(5) + "1", "").bits();
+        Bits[] all = {deep, wide};
+        for (Bits bits : all) {
+            Check.due("it ends with a byte", 0, bits.length() % 8);
+            FilmBlocks film = bits.feedTo(new FilmBlocks());
+            Check.due("3 TREE at the last bit", 3, film.header());
+            Check.due("taken()", bits.length(), film.taken());
+            film = bits.first(bits.length() - 8).feedTo(new FilmBlocks());
+            Check.due("1 END before it", 1, film.header());
+            Check.due("taken()", bits.length() - 8, film.taken());
+        }
+    }
+
+    /** However a tree of 32 tokens is built: it is taken, and one more token is not. */
+    private static void thirtyTwoTokensInAnyForm() {
+        for (int deep = 0; deep <= 12; deep++) {
+            // So many tokens lie beside the way down to the tree with all others.
+            boolean toTheLeft = deep % 2 == 0;
+            String leaf = HeaderMaker.leaf(deep);
+            String rest = ofTokens(32 - deep, 12 - deep);
+            if (rest.isEmpty()) {
+                continue;
+            }
+            String more = ofTokens(33 - deep, 12 - deep);
+            String tree = toTheLeft ? "0".repeat(deep) + rest + leaf.repeat(deep)
+                : ("0" + leaf).repeat(deep) + rest;
+            counts("32 tokens below " + deep, tree, 32, leaf, 1);
+            counts("32 tokens below " + deep, leaf, 1, tree, 32);
+            if (!more.isEmpty()) {
+                String tooWide = toTheLeft ? "0".repeat(deep) + more + leaf.repeat(deep)
+                    : ("0" + leaf).repeat(deep) + more;
+                // The 33rd token is the last one: all but its five bits are taken.
+                faulty("33 tokens below " + deep, tooWide, leaf, 3, tooWide.length() - 5);
+                faulty("33 tokens below " + deep, leaf, tooWide, 3, 6 + tooWide.length() - 5);
+            }
+        }
+    }
+
+    /** A tree of as many tokens that is at most so deep, or nothing if there is none. */
+    private static String ofTokens(int tokens, int depth) {
+        if (tokens > 1 << depth) {
+            return "";
+        }
+        if (tokens == 1) {
+            return HeaderMaker.leaf(tokens);
+        }
+        return "0" + ofTokens(tokens / 2, depth - 1) + ofTokens(tokens - tokens / 2, depth - 1);
     }
 }

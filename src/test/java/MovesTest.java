@@ -14,6 +14,8 @@ public final class MovesTest {
         move(-31, 31);
         move(-31, -31);
         handMade();
+        farOutOfOneBlock();
+        goldenStaysInItsPlace();
         Check.end();
     }
 
@@ -87,5 +89,48 @@ public final class MovesTest {
             .put("110 11111 1 00000 0 1110").tokens(1));
         Check.due("both are of the left border", 128, film.sample(0, 0, false));
         Check.due("15.5 to the left", 128, film.sample(15, 3, false));
+    }
+
+    /** Each place is brought into the picture: of one block nothing but a corner is left. */
+    private static void farOutOfOneBlock() {
+        for (int v = -31; v <= 31; v += 31) {
+            for (int w = -31; w <= 31; w += 31) {
+                FilmBlocks film = HeaderMaker.of(1, 1).steps(60).film();
+                Films.take("a picture", film, Films.first(0).numbers(1, -3, 2, 1, -2, 3, 1)
+                    .tokens(0));
+                int[] before = new int[64];
+                for (int i = 0; i < 64; i++) {
+                    before[i] = film.sample(i % 8, i / 8, false);
+                }
+                Films.take("moved", film, Films.between().put("1").runs(1).put("110")
+                    .put(number(v)).put(number(w)).tokens(0));
+                for (int i = 0; i < 64; i++) {
+                    int x = v < 0 ? 0 : v > 0 ? 7 : i % 8;
+                    int y = w < 0 ? 0 : w > 0 ? 7 : i / 8;
+                    Check.due("by " + v + ", " + w + ": sample " + i, before[8 * y + x],
+                        film.sample(i % 8, i / 8, false));
+                }
+            }
+        }
+    }
+
+    /** GOLDEN takes each sample from its own place, whatever has become of the previous picture. */
+    private static void goldenStaysInItsPlace() {
+        FilmBlocks film = film();
+        int[] golden = samples(film);
+        Films.take("all moved", film, Films.between().put("1").runs(6).put("110 10011 0 01101 1")
+            .put("1110 1110 1110 1110 1110").tokens(3).put(0, 3));
+        int[] moved = samples(film);
+        // In order: (0,0) and (1,0) not coded, (1,1) (0,1) (2,1) golden, (2,0) not coded.
+        Films.take("some golden", film, Films.between().put("0").runs(2, 3, 1)
+            .put("1111 1111 1111").tokens(2).put(0, 2));
+        int differ = 0;
+        for (int i = 0; i < golden.length; i++) {
+            boolean below = i / WIDTH >= 8;
+            Check.due("sample " + i, below ? golden[i] : moved[i],
+                film.sample(i % WIDTH, i / WIDTH, false));
+            differ += golden[i] == moved[i] ? 0 : 1;
+        }
+        Check.due("the pictures differ: " + differ, differ > WIDTH * HEIGHT / 2);
     }
 }

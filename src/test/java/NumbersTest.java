@@ -9,6 +9,10 @@ public final class NumbersTest {
         factors();
         bounds();
         sumsOfWaves();
+        noneOfItsKindInThisFrame();
+        halvesOfAllSigns();
+        largestFactor();
+        everyModeIsBroughtIntoAByte();
         Check.end();
     }
 
@@ -128,6 +132,96 @@ public final class NumbersTest {
                 Check.due("run " + run + ", sample " + i + " is " + away + " away",
                     Math.abs(Math.max(0, Math.min(255, exact))
                         - film.sample(i % 8, i / 8, false)) < 2.5);
+            }
+        }
+    }
+
+    /** 0 without: of no kind does a guess come from an earlier frame, nor from another kind. */
+    private static void noneOfItsKindInThisFrame() {
+        String[] modes = {"0", "10", "1111", "110 00001 0 00000 0"};
+        FilmBlocks film = HeaderMaker.of(2, 1).film();
+        Films.take("a picture", film, Films.first(0).numbers(3, 4).tokens(1));
+        for (String mode : modes) {
+            for (int times = 0; times < 3; times++) {
+                Films.take("alone", film, Films.between().put("1").runs(1, 1).put(mode)
+                    .numbers(40).tokens(0));
+                numbers("alone, " + mode, film, 2, new int[] {40, 0});
+                Films.take("alone, without a number", film, Films.between().put("0").runs(1, 1)
+                    .put(mode).tokens(0));
+                numbers("without, " + mode, film, 2, new int[] {0, 0});
+            }
+            for (String other : modes) {
+                boolean alike = isElse(mode) && isElse(other) || mode.equals(other);
+                Films.take("both", film, Films.between().put("1").runs(2).put(mode).put(other)
+                    .numbers(40).tokens(1));
+                numbers(mode + " and " + other, film, 2, new int[] {40, alike ? 40 : 0});
+            }
+        }
+    }
+
+    private static boolean isElse(String mode) {
+        return mode.equals("0") || mode.startsWith("110 ");
+    }
+
+    /** The sum of the left and the upper one, halved, cut towards 0. */
+    private static void halvesOfAllSigns() {
+        FilmBlocks film = HeaderMaker.of(2, 2).film();
+        for (int left = -7; left <= 7; left++) {
+            for (int above = -7; above <= 7; above++) {
+                // The first has 20; in order it is followed by (1,0), (1,1), (0,1).
+                Films.take("halves", film, Films.first(0).numbers(20, above - 20).tokens(5)
+                    .put(0, 3).numbers(left - 20).tokens(2).put(1, 2));
+                numbers(left + " and " + above, film, 2,
+                    new int[] {20, above, left, (left + above) / 2});
+            }
+        }
+    }
+
+    /** STEPS of 255 times SCALE of 1023, by 100, is 2608.65: below 4096, and cut. */
+    private static void largestFactor() {
+        HeaderMaker maker = HeaderMaker.of(1, 1).steps(255);
+        maker.scales[7] = 1023;
+        FilmBlocks film = maker.film();
+        int wouldDiffer = 0;
+        for (int first = 1; first <= 12; first++) {
+            for (int second = -12; second < 0; second++) {
+                Films.take("largest", film, Films.first(7).numbers(first, second).tokens(0));
+                for (int i = 0; i < 64; i++) {
+                    int due = ofTwo(first, second, 2608, i);
+                    wouldDiffer += due == ofTwo(first, second, 2609, i) ? 0 : 1;
+                    Check.due(first + " and " + second + ": sample " + i, due,
+                        film.sample(i % 8, i / 8, false));
+                }
+            }
+        }
+        Check.due("a factor of 2609 would be seen", wouldDiffer > 0);
+    }
+
+    private static int ofTwo(int first, int second, int factor, int i) {
+        int[] products = new int[64];
+        products[0] = first * factor;
+        products[1] = second * factor;
+        return Films.inByte(128 + Waves.added(products, i % 8, i / 8));
+    }
+
+    /** NEW from 128, the others from what they take over: below 0 and above 255 none comes. */
+    private static void everyModeIsBroughtIntoAByte() {
+        String[] modes = {"0", "10", "1111", "110 00010 0 00010 1"};
+        for (String mode : modes) {
+            int grey = 118;
+            int base = mode.equals("10") ? 128 : grey;
+            int[] added = {-300, -base - 1, -base, -base + 1, 254 - base, 255 - base, 256 - base,
+                300};
+            for (int one : added) {
+                FilmBlocks film = HeaderMaker.of(1, 1).steps(8).film();
+                Films.take("grey", film, Films.first(0).numbers(-10).tokens(0));
+                Check.due("grey", grey, film.sample(3, 3, false));
+                // Eight times a number is what comes, at factor 8: 64 times 1/8.
+                Films.take("brought", film, Films.between().put("1").runs(1).put(mode)
+                    .numbers(one).tokens(0));
+                Check.due(mode + " and " + one, Films.inByte(base + one),
+                    film.sample(3, 3, false));
+                Check.due("the last sample", Films.inByte(base + one), film.sample(7, 7, false));
             }
         }
     }

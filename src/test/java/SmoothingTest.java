@@ -7,12 +7,14 @@ public final class SmoothingTest {
         bounds();
         edgesOfOneBlock();
         notCodedAlone();
+        everyPatternOfNine();
+        everySize();
         Check.end();
     }
 
     /** Two blocks side by side or one above the other, of 128 and so far above it. */
     private static FilmBlocks pair(boolean upright, int limit, int apart) {
-        for (int size = 21; size <= 36; size++) {
+        for (int size = 1; size <= 36; size++) {
             for (int step = 2; step < 256; step++) {
                 int number = apart < 0 ? -size : size;
                 if (Films.level(number * step) == apart) {
@@ -27,7 +29,7 @@ public final class SmoothingTest {
         FilmBlocks film = HeaderMaker.of(upright ? 2 : 1, upright ? 1 : 2).limit(limit).steps(step)
             .film();
         Films.take("a pair", film, Films.first(0).tokens(5).put(7, 3)
-            .tokens(18).put(number < 0 ? 1 : 0, 1).put(Math.abs(number) - 21, 4).tokens(0, 0));
+            .numbers(number).tokens(0, 0));
         return film;
     }
 
@@ -53,6 +55,24 @@ public final class SmoothingTest {
         edge(22, 31, 6);
         edge(-22, 31, -5);
         edge(-23, 31, -6);
+        // LIMIT 1: only sizes of 1 are below twice that.
+        edge(1, 1, 0);
+        edge(2, 1, 1);
+        edge(5, 1, 1);
+        edge(6, 1, 0);
+        edge(-2, 1, 0);
+        edge(-3, 1, -1);
+        edge(-6, 1, -1);
+        edge(-7, 1, 0);
+        edge(2, 0, 0);
+        edge(-3, 0, 0);
+        // Sizes of 30, 31 and 32 at LIMIT 16.
+        edge(118, 16, 2);
+        edge(122, 16, 1);
+        edge(126, 16, 0);
+        edge(-122, 16, -2);
+        edge(-126, 16, -1);
+        edge(-128, 16, 0);
         edge(120, 31, 30);
         edge(-120, 31, -30);
         edge(-128, 31, 0 - 30);
@@ -177,15 +197,18 @@ public final class SmoothingTest {
     }
 
     private static void copy(FilmBlocks film, int[][] picture) {
-        for (int i = 0; i < 24 * 24; i++) {
-            picture[i / 24][i % 24] = film.sample(i % 24, i / 24, false);
+        int width = picture[0].length;
+        for (int i = 0; i < width * picture.length; i++) {
+            picture[i / width][i % width] = film.sample(i % width, i / width, false);
         }
     }
 
     private static void same(String what, int[][] picture, FilmBlocks film) {
-        for (int i = 0; i < 24 * 24; i++) {
-            Check.due(what + ": sample " + i % 24 + ", " + i / 24, picture[i / 24][i % 24],
-                film.sample(i % 24, i / 24, false));
+        int width = picture[0].length;
+        for (int i = 0; i < width * picture.length; i++) {
+            int x = i % width;
+            int y = i / width;
+            Check.due(what + ": sample " + x + ", " + y, picture[y][x], film.sample(x, y, false));
         }
     }
 
@@ -209,5 +232,88 @@ public final class SmoothingTest {
         FilmBlocks film = nine(20, picture);
         Films.take("none", film, Films.between().put("0 111 00001"));
         same("none", picture, film);
+    }
+
+    /** Whatever is coded of nine blocks: all edges that the document names, and no other. */
+    private static void everyPatternOfNine() {
+        for (int pattern = 0; pattern < 512; pattern++) {
+            boolean[] coded = new boolean[9];
+            for (int i = 0; i < 9; i++) {
+                coded[i] = (pattern >> i & 1) == 1;
+            }
+            int[][] picture = new int[24][24];
+            FilmBlocks film = nine(31, picture);
+            takeCoded("pattern " + pattern, film, 3, coded);
+            smoothAll(picture, coded, 31);
+            same("pattern " + pattern, picture, film);
+        }
+    }
+
+    /** The coded blocks are as in the previous picture, but for their edges. */
+    private static void takeCoded(String what, FilmBlocks film, int columns, boolean[] coded) {
+        Bits frame = Films.between().put(Films.flags(columns, coded).text());
+        int count = 0;
+        for (boolean one : coded) {
+            count += one ? 1 : 0;
+        }
+        frame.put("0".repeat(count));
+        if (count > 0) {
+            frame.tokens(4).put(255, 8);
+        }
+        Films.take(what, film, frame);
+    }
+
+    private static void smoothAll(int[][] picture, boolean[] coded, int limit) {
+        int columns = picture[0].length / 8;
+        for (int i = 0; i < coded.length; i++) {
+            int x = i % columns * 8;
+            int y = i / columns * 8;
+            if (coded[i] && x > 0) {
+                smoothLines(picture, x, y, true, limit);
+            }
+            if (coded[i] && y > 0) {
+                smoothLines(picture, x, y, false, limit);
+            }
+            if (coded[i] && x + 8 < picture[0].length && !coded[i + 1]) {
+                smoothLines(picture, x + 8, y, true, limit);
+            }
+            if (coded[i] && y + 8 < picture.length && !coded[i + columns]) {
+                smoothLines(picture, x, y + 8, false, limit);
+            }
+        }
+    }
+
+    /** Edges of the picture have no block behind them, however many blocks it has. */
+    private static void everySize() {
+        Random random = new Random(11);
+        for (int size = 0; size < 36 * 4; size++) {
+            int columns = 1 + size % 6;
+            int rows = 1 + size / 6 % 6;
+            int limit = size < 36 ? 0 : 1 + random.nextInt(31);
+            int[][] picture = new int[8 * rows][8 * columns];
+            FilmBlocks film = rough(random, columns, rows, limit);
+            copy(film, picture);
+            boolean[] coded = new boolean[columns * rows];
+            for (int i = 0; i < coded.length; i++) {
+                coded[i] = size / 36 == 1 || random.nextInt(3) > 0;
+            }
+            String what = columns + " by " + rows + ", LIMIT " + limit;
+            takeCoded(what, film, columns, coded);
+            if (limit > 0) {
+                smoothAll(picture, coded, limit);
+            }
+            same(what, picture, film);
+        }
+    }
+
+    private static FilmBlocks rough(Random random, int columns, int rows, int limit) {
+        FilmBlocks film = HeaderMaker.of(columns, rows).limit(limit).steps(30).film();
+        Bits frame = Films.first(0);
+        for (int i = 0; i < 3 * columns * rows; i++) {
+            int size = 1 + random.nextInt(12);
+            frame.numbers(random.nextBoolean() ? size : -size);
+        }
+        Films.take("rough", film, frame.tokens(4).put(255, 8));
+        return film;
     }
 }

@@ -30,6 +30,7 @@ public final class SumTest {
             grey = 31 * grey + 128;
         }
         Check.due("of a grey block", grey, film.sum());
+        wrapsAround();
         Check.end();
     }
 
@@ -41,5 +42,26 @@ public final class SumTest {
             }
         }
         return sum;
+    }
+
+    /** The largest picture, all white: what goes beyond an int is let go, whatever its sign. */
+    private static void wrapsAround() {
+        int above = 0;
+        int below = 0;
+        for (int number = -20; number <= 20; number++) {
+            FilmBlocks film = HeaderMaker.of(6, 6).steps(60).film();
+            Bits frame = Films.first(0);
+            Films.take("a picture", film, (number == 0 ? frame : frame.numbers(number)).tokens(4)
+                .put(255, 8));
+            long sum = 0;
+            for (int i = 0; i < 48 * 48; i++) {
+                sum = (31 * sum + film.sample(i % 48, i / 48, false)) % (1L << 32);
+            }
+            long due = sum < 1L << 31 ? sum : sum - (1L << 32);
+            Check.due("sum by " + number, due, film.sum());
+            above += due > 0 ? 1 : 0;
+            below += due < 0 ? 1 : 0;
+        }
+        Check.due("sums above 0: " + above + ", below: " + below, above > 5 && below > 5);
     }
 }

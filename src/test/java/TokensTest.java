@@ -12,6 +12,7 @@ public final class TokensTest {
         places();
         beyondTheLastPlace();
         treesByPlace();
+        firstTreeForPlaceZeroAlone();
         treesOfOneToken();
         deepestTokens();
         Check.end();
@@ -240,5 +241,18 @@ public final class TokensTest {
         Films.take("only what is behind the token", film, Films.first(0).put("00010 10011"));
         Check.due("the first", 23, film.block(0, 0, 3));
         Check.due("the second", 23 - 24, film.block(1, 0, 3));
+    }
+
+    /** The first tree takes no bits, the other one a bit for each token: at places 1 to 63. */
+    private static void firstTreeForPlaceZeroAlone() {
+        String two = "0" + HeaderMaker.leaf(0) + HeaderMaker.leaf(7);
+        for (int blocks = 1; blocks <= 6; blocks += 5) {
+            FilmBlocks film = HeaderMaker.of(blocks, 1).trees(HeaderMaker.leaf(7), two).film();
+            for (int places = 1; places < 64; places++) {
+                Bits frame = Films.first(0).put("1".repeat(blocks * (places - 1)));
+                Films.take(places + " numbers each", film, frame.put("0".repeat(blocks)));
+            }
+            Films.take("64 numbers each", film, Films.first(0).put("1".repeat(blocks * 63)));
+        }
     }
 }

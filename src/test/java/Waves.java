@@ -28,6 +28,19 @@ final class Waves {
         return (int) Math.floorDiv(t(y, spot / 8) * row + 16384, 32768L);
     }
 
+    /** What 64 numbers, their factors taken in, add to sample (x, y), to the last bit. */
+    static int added(int[] numbers, int x, int y) {
+        long column = 16384;
+        for (int v = 0; v < 8; v++) {
+            long row = 16384;
+            for (int u = 0; u < 8; u++) {
+                row += t(x, u) * numbers[PLACES[8 * v + u]];
+            }
+            column += t(y, v) * Math.floorDiv(row, 32768L);
+        }
+        return (int) Math.floorDiv(column, 32768L);
+    }
+
     /** What 64 numbers add to sample (x, y), without any rounding. */
     static double exact(int[] numbers, int x, int y) {
         double sum = 0;

@@ -78,7 +78,7 @@ final class Bits {
     }
 
     /** Feeds the bits and cuts off the bytes that none of them needs. */
-    FilmBlocks feedTo(FilmBlocks film) {
+    Film feedTo(Film film) {
         int fed = 0;
         for (int from = 0; from < length(); from += 128) {
             film.feed(word(from), word(from + 32), word(from + 64), word(from + 96));

@@ -1,7 +1,7 @@
 /** Promise 9: of a block in the latest frame that was taken. */
 public final class BlockTest {
     public static void main(String[] args) {
-        FilmBlocks film = HeaderMaker.of(3, 2).film();
+        Film film = HeaderMaker.of(3, 2).film();
         Check.dueThrow("no picture", IllegalStateException.class, () -> film.block(-1, 0, 9));
         Films.take("a first frame", film, Films.first(0).tokens(7, 9, 8, 10, 7, 3).put(0, 3));
         // In order: (0,0) (1,0) (1,1) (0,1) (2,1) (2,0), which ends at once.
@@ -27,18 +27,18 @@ public final class BlockTest {
     }
 
     /** Rows of what is due, in raster. */
-    private static void blocks(String what, FilmBlocks film, int[] modes, int[] across,
+    private static void blocks(String what, Film film, int[] modes, int[] across,
             int[] down, int[] numbers) {
         for (int i = 0; i < 6; i++) {
             String which = what + ", block " + i;
             Check.due(which + ": mode", modes[i], film.block(i % 3, i / 3, 0));
             Check.due(which + ": across", across[i], film.block(i % 3, i / 3, 1));
             Check.due(which + ": down", down[i], film.block(i % 3, i / 3, 2));
-            Check.due(which + ": number", numbers[i], film.block(i % 3, i / 3, 3));
+            Films.number(which + ": number", numbers[i], film, i % 3, i / 3);
         }
     }
 
-    private static void exceptions(FilmBlocks film) {
+    private static void exceptions(Film film) {
         int[][] wrong = {{-1, 0}, {0, -1}, {3, 0}, {0, 2}, {2, 2}, {Integer.MAX_VALUE, 1},
             {0, Integer.MIN_VALUE}};
         for (int[] place : wrong) {
@@ -56,7 +56,7 @@ public final class BlockTest {
         }
     }
 
-    private static void belowZeroIsZero(FilmBlocks film) {
+    private static void belowZeroIsZero(Film film) {
         Films.take("0 below 0", film, Films.between().put("1 0 110 01")
             .put("110 00000 1 00000 1").tokens(0));
         Check.due("mode", 3, film.block(0, 0, 0));
@@ -68,7 +68,7 @@ public final class BlockTest {
     private static void nothingOfEarlierFrames() {
         String[] modes = {"0", "10", "1111", "1110", ""};
         int[] due = {1, 2, 4, 3, 0};
-        FilmBlocks film = HeaderMaker.of(2, 1).film();
+        Film film = HeaderMaker.of(2, 1).film();
         Films.take("a picture", film, Films.first(0).numbers(5, 6).tokens(1));
         Bits moved = Films.between().put("1").runs(2).put("110 00101 1 00011 0 1110")
             .numbers(9, 11).tokens(1);
@@ -93,10 +93,11 @@ public final class BlockTest {
         blockIs(film, 1, new int[] {2, 0, 0, 0});
     }
 
-    private static void blockIs(FilmBlocks film, int column, int[] due) {
-        for (int what = 0; what < due.length; what++) {
+    private static void blockIs(Film film, int column, int[] due) {
+        for (int what = 0; what < 3; what++) {
             Check.due("block " + column + ", " + what, due[what], film.block(column, 0, what));
         }
+        Films.number("block " + column + ", its number", due[3], film, column, 0);
     }
 
     /** Of every size: the last column and row are there, and none behind them. */
@@ -104,7 +105,7 @@ public final class BlockTest {
         for (int size = 0; size < 36; size++) {
             int columns = 1 + size % 6;
             int rows = 1 + size / 6;
-            FilmBlocks film = HeaderMaker.of(columns, rows).film();
+            Film film = HeaderMaker.of(columns, rows).film();
             Films.take("a picture", film, Films.first(0).numbers(7).tokens(4).put(255, 8));
             String what = columns + " by " + rows;
             Check.due(what + ": the last block", 7, film.block(columns - 1, rows - 1, 3));

@@ -7,7 +7,7 @@ public final class EndTest {
     }
 
     private static void wrongLengths() {
-        FilmBlocks film = new FilmBlocks();
+        Film film = new Film();
         film.feed(1, 2, 3, 4);
         film.feed(1, 2, 3, 4);
         int[] wrong = {-1, 33, 34, 6000, Integer.MIN_VALUE, Integer.MAX_VALUE};
@@ -28,7 +28,7 @@ public final class EndTest {
         Bits bits = HeaderMaker.of(1, 1).bits();
         int need = bits.byteLength();
         for (int n = 0; n <= need; n++) {
-            FilmBlocks film = new FilmBlocks();
+            Film film = new Film();
             bits.feedTo(film);
             film.end(n);
             Check.due("header() of " + n + " bytes", n < need ? 1 : 0, film.header());

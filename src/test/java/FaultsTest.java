@@ -1,31 +1,62 @@
 /** FAULTS change nothing but the tape and what taken() tells, nor anything that comes behind. */
 public final class FaultsTest {
-    private static final String STATELESS = Films.state(new FilmBlocks());
+    private static final String STATELESS = Films.state(new Film());
 
     public static void main(String[] args) {
-        FilmBlocks plain = HeaderMaker.of(3, 2).limit(9).steps(12).film();
-        FilmBlocks disturbed = new FilmBlocks();
-        headerFaults(disturbed, STATELESS);
-        HeaderMaker.of(3, 2).limit(9).steps(12).bits().feedTo(disturbed);
-        Check.due("header()", 0, disturbed.header());
-        FilmBlocks fresh = HeaderMaker.of(3, 2).limit(9).steps(12).film();
-        Films.refuse("between, before any picture", disturbed, Films.between(), 4, 1);
         Bits[] frames = frames();
+        String[] states = states(frames);
+        Check.due("the state in the end is not as at first",
+            !states[0].equals(states[frames.length]));
         for (int i = 0; i < frames.length; i++) {
-            String before = Films.state(disturbed);
-            Check.due("the state before frame " + i, before.equals(Films.state(plain)));
-            headerFaults(disturbed, before);
-            cuts(disturbed, frames[i]);
-            headerFaults(disturbed, before);
-            if (i > 0) {
-                frameFaults(disturbed);
-            }
-            Films.take("plain " + i, plain, frames[i]);
-            Films.take("disturbed " + i, disturbed, frames[i]);
+            disturbedBefore(i, frames, states);
         }
-        Check.due("the state in the end", Films.state(plain).equals(Films.state(disturbed)));
-        Check.due("it is not as at first", !Films.state(plain).equals(Films.state(fresh)));
         Check.end();
+    }
+
+    private static HeaderMaker maker() {
+        return HeaderMaker.of(3, 2).limit(9).steps(12);
+    }
+
+    /** The states behind the header and behind each frame, without any fault. */
+    private static String[] states(Bits[] frames) {
+        Film film = maker().film();
+        String[] states = new String[frames.length + 1];
+        states[0] = Films.state(film);
+        for (int i = 0; i < frames.length; i++) {
+            Films.take("plain " + i, film, frames[i]);
+            states[i + 1] = Films.state(film);
+        }
+        return states;
+    }
+
+    /** All faults come before one of the frames. */
+    private static void disturbedBefore(int number, Bits[] frames, String[] states) {
+        Film film = new Film();
+        if (number == 0) {
+            headerFaults(film, STATELESS);
+        }
+        maker().bits().feedTo(film);
+        Check.due("header()", 0, film.header());
+        for (int i = 0; i < frames.length; i++) {
+            String what = "frame " + i + ", disturbed before " + number;
+            Check.due("the state before " + what, states[i].equals(Films.state(film)));
+            if (i == number) {
+                disturb(film, i, frames[i], states[i]);
+            }
+            Films.take(what, film, frames[i]);
+        }
+        Check.due("the state in the end", states[frames.length].equals(Films.state(film)));
+    }
+
+    private static void disturb(Film film, int number, Bits frame, String state) {
+        headerFaults(film, state);
+        cuts(film, frame);
+        headerFaults(film, state);
+        if (number == 0) {
+            Films.refuse("between, before any picture", film, Films.between(), 4, 1);
+        } else {
+            frameFaults(film);
+        }
     }
 
     /** Kept and not, moved as the latest, golden; endings that are not all used up. */
@@ -44,7 +75,7 @@ public final class FaultsTest {
             Films.first(0).tokens(2).put(0, 2).numbers(1, 2, 3).tokens(2).put(3, 2)};
     }
 
-    private static void headerFaults(FilmBlocks film, String state) {
+    private static void headerFaults(Film film, String state) {
         String leaf = HeaderMaker.leaf(9);
         Bits[] headers = {
             new Bits(), HeaderMaker.of(6, 6).limit(31).bits().first(400),
@@ -59,13 +90,13 @@ public final class FaultsTest {
         }
     }
 
-    private static void cuts(FilmBlocks film, Bits frame) {
+    private static void cuts(Film film, Bits frame) {
         for (int bits = 0; bits < frame.length(); bits += 8) {
             Films.refuse("cut behind " + bits + " bits", film, frame.first(bits), 1, bits);
         }
     }
 
-    private static void frameFaults(FilmBlocks film) {
+    private static void frameFaults(Film film) {
         Bits run = Films.between().put("1").runs(3, 1, 3);
         Films.refuse("RUN", film, run, 5, run.length());
         Bits moved = new Bits().put("1 111 1").put("1").runs(6)

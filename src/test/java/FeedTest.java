@@ -8,7 +8,7 @@ public final class FeedTest {
     }
 
     private static void untilItIsFull() {
-        FilmBlocks film = new FilmBlocks();
+        Film film = new Film();
         for (int i = 1; i <= 375; i++) {
             Check.due("feed " + i, 16 * i, film.feed(i, -i, 7 * i, Integer.MIN_VALUE));
         }
@@ -22,17 +22,19 @@ public final class FeedTest {
         film.end(5985);
         film.end(5984);
         Check.due("feed up to 6000", 6000, film.feed(1, 2, 3, 4));
-        Check.due("a header is read from it", 0 == film.header() || film.taken() > 0);
+        // Bit 219 is a 0, and a token of six bits follows: the twelfth 0 behind it is too much.
+        Check.due("a header is read from its beginning", 3, film.header());
+        Check.due("taken()", 219 + 1 + 6 + 12, film.taken());
         Check.due("it is empty then", 16, film.feed(0, 0, 0, 0));
     }
 
     private static void behindACut() {
-        FilmBlocks film = new FilmBlocks();
+        Film film = new Film();
         film.feed(-1, -1, -1, -1);
         film.end(3);
         Check.due("feed behind 3 bytes", 19, film.feed(0, 0, 0, 0));
         Bits bits = HeaderMaker.of(5, 4).limit(9).bits();
-        FilmBlocks other = new FilmBlocks();
+        Film other = new Film();
         other.feed(-1, -1, -1, -1);
         other.end(0);
         bits.feedTo(other);
@@ -42,7 +44,7 @@ public final class FeedTest {
 
     /** A header of which every byte is another one lies in the numbers as the document tells. */
     private static void highestByteFirst() {
-        FilmBlocks film = new FilmBlocks();
+        Film film = new Film();
         // 011 010 00101 and zeros; the trees 1 00000 and 1 00000 begin at bit 219.
         film.feed(0x68A00000, 0, 0, 0);
         film.feed(0, 0, 0x00000010, 0x40000000);

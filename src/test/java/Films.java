@@ -48,7 +48,7 @@ final class Films {
     }
 
     /** Reads a frame that has no fault, and looks at what it took. */
-    static void take(String what, FilmBlocks film, Bits frame) {
+    static void take(String what, Film film, Bits frame) {
         int before = film.frames();
         frame.feedTo(film);
         Check.due(what + ": frame()", 0, film.frame());
@@ -57,7 +57,7 @@ final class Films {
     }
 
     /** Reads a frame that has a fault, and looks that it changed nothing but the tape. */
-    static void refuse(String what, FilmBlocks film, Bits frame, int fault, int taken) {
+    static void refuse(String what, Film film, Bits frame, int fault, int taken) {
         String before = state(film);
         frame.feedTo(film);
         Check.due(what + ": frame()", fault, film.frame());
@@ -67,42 +67,59 @@ final class Films {
             () -> film.end(1));
     }
 
-    /** All answers that do not change the object, but what it took. */
-    static String state(FilmBlocks film) {
+    /** All that the document promises of the object, but what it took: header, blocks, samples. */
+    static String state(Film film) {
         StringBuilder state = new StringBuilder();
         state.append(film.frames()).append(' ').append(film.sum());
-        for (int what = 0; what < 5; what++) {
+        // Without a header there is nothing at (0, 0), either.
+        int[] head = {1, 1, 0, 0, 0};
+        for (int what = 0; what < head.length; what++) {
             try {
-                state.append(' ').append(film.head(what));
+                head[what] = film.head(what);
+                state.append(' ').append(head[what]);
             } catch (IllegalStateException e) {
                 state.append(" none");
             }
         }
-        for (int i = 0; i < 36; i++) {
-            addBlock(state, film, i % 6, i / 6);
+        for (int i = 0; i < head[0] * head[1]; i++) {
+            addBlock(state, film, i % head[0], i / head[0]);
         }
-        for (int i = 0; i < 48 * 48; i++) {
-            addSample(state, film, i % 48, i / 48);
+        int width = 8 * head[0];
+        for (int i = 0; i < 64 * head[0] * head[1]; i++) {
+            addSample(state, film, i % width, i / width);
         }
         return state.toString();
     }
 
-    private static void addBlock(StringBuilder state, FilmBlocks film, int column, int row) {
-        for (int what = 0; what < 4; what++) {
-            try {
+    private static void addBlock(StringBuilder state, Film film, int column, int row) {
+        try {
+            int mode = film.block(column, row, 0);
+            state.append(' ').append(mode);
+            for (int what = 1; what < (mode == 0 ? 3 : 4); what++) {
                 state.append(' ').append(film.block(column, row, what));
-            } catch (IllegalStateException | IndexOutOfBoundsException e) {
-                state.append(" none");
             }
+        } catch (IllegalStateException e) {
+            state.append(" none");
         }
     }
 
-    private static void addSample(StringBuilder state, FilmBlocks film, int x, int y) {
+    private static void addSample(StringBuilder state, Film film, int x, int y) {
         try {
             state.append(' ').append(film.sample(x, y, false));
             state.append(' ').append(film.sample(x, y, true));
-        } catch (IllegalStateException | IndexOutOfBoundsException e) {
+        } catch (IllegalStateException e) {
             state.append(" none");
+        }
+    }
+
+    /**
+     * Looks at a block's number at place 0. The document says none for a block that is not coded:
+     * of that one it is only asked, as the call may throw nothing.
+     */
+    static void number(String what, int due, Film film, int column, int row) {
+        int got = film.block(column, row, 3);
+        if (film.block(column, row, 0) != 0) {
+            Check.due(what, due, got);
         }
     }
 

@@ -13,15 +13,15 @@ public final class FlagsTest {
         Check.end();
     }
 
-    private static FilmBlocks film(int columns, int rows) {
-        FilmBlocks film = HeaderMaker.of(columns, rows)
+    private static Film film(int columns, int rows) {
+        Film film = HeaderMaker.of(columns, rows)
             .trees(HeaderMaker.leaf(4), HeaderMaker.FULL_TREE).film();
         Films.take("a picture", film, Films.first(0).put(255, 8));
         return film;
     }
 
     private static void everyRun() {
-        FilmBlocks film = film(6, 6);
+        Film film = film(6, 6);
         for (int length = 1; length < 36; length++) {
             for (int flag = 0; flag < 2; flag++) {
                 Bits frame = Films.between().put(flag, 1).runs(length, 36 - length);
@@ -41,12 +41,12 @@ public final class FlagsTest {
         Check.due("the first one", 0, mode(film, 0));
     }
 
-    private static int mode(FilmBlocks film, int raster) {
+    private static int mode(Film film, int raster) {
         return film.block(raster % 6, raster / 6, 0);
     }
 
     private static void runsInTurn() {
-        FilmBlocks film = film(6, 6);
+        Film film = film(6, 6);
         int[] lengths = {1, 2, 1, 3, 4, 8, 5, 1, 7, 1, 1, 2};
         Bits frame = Films.between().put(1, 1);
         int coded = 0;
@@ -66,8 +66,8 @@ public final class FlagsTest {
     }
 
     private static void tooLongRuns() {
-        FilmBlocks film = film(6, 6);
         for (int before = 1; before < 36; before++) {
+            Film film = film(6, 6);
             for (int length = 36 - before + 1; length <= 39; length++) {
                 Bits frame = Films.between().put(0, 1).runs(before, length);
                 Bits more = new Bits().put(frame.text()).put(-1, 32);
@@ -76,14 +76,14 @@ public final class FlagsTest {
                 Check.due("taken()", frame.length(), film.taken());
             }
         }
-        Films.refuse("37", film, Films.between().put("1").runs(37).put(-1, 16), 5, 14);
+        Films.refuse("37", film(6, 6), Films.between().put("1").runs(37).put(-1, 16), 5, 14);
         Films.refuse("2 of 1", film(1, 1), Films.between().put("1 100").put(-1, 16), 5, 9);
         Films.refuse("39 of 1", film(1, 1), Films.between().put("1").runs(39).put(-1, 9), 5,
             14);
     }
 
     private static void smallPictures() {
-        FilmBlocks film = film(5, 1);
+        Film film = film(5, 1);
         Films.take("a row", film,
             Films.between().put("1").runs(2, 2, 1).put("000").put(255, 8));
         int[] due = {1, 1, 0, 0, 1};
@@ -100,7 +100,7 @@ public final class FlagsTest {
     }
 
     private static void modes() {
-        FilmBlocks film = film(6, 6);
+        Film film = film(6, 6);
         String frame = new Bits().put("1").runs(8, 28).text();
         Bits bits = Films.between().put(frame).put("1110").put("0").put("110 00111 0 11111 1")
             .put("10").put("1110").put("110 00000 1 00001 0").put("1111").put("1110").put(255, 8);
@@ -128,7 +128,7 @@ public final class FlagsTest {
             int rows = 1 + size / 6;
             int blocks = columns * rows;
             int[] order = Films.order(columns, rows);
-            FilmBlocks film = film(columns, rows);
+            Film film = film(columns, rows);
             for (int i = 0; i < blocks; i++) {
                 Bits frame = Films.between().put(i == 0 ? 1 : 0, 1);
                 if (i > 0) {
@@ -154,7 +154,7 @@ public final class FlagsTest {
             int columns = 1 + size % 6;
             int rows = 1 + size / 6;
             int blocks = columns * rows;
-            FilmBlocks film = film(columns, rows);
+            Film film = film(columns, rows);
             String what = columns + " by " + rows;
             Films.take(what + ": all", film,
                 Films.between().put("1").runs(blocks).put(0, blocks).put(255, 8));

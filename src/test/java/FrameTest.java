@@ -12,7 +12,7 @@ public final class FrameTest {
     }
 
     private static void noHeader() {
-        FilmBlocks film = new FilmBlocks();
+        Film film = new Film();
         film.feed(1, 2, 3, 4);
         Check.dueThrow("frame()", IllegalStateException.class, () -> film.frame());
         Check.due("the tape is as before", 32, film.feed(1, 2, 3, 4));
@@ -23,7 +23,7 @@ public final class FrameTest {
     }
 
     private static void noPicture() {
-        FilmBlocks film = HeaderMaker.of(2, 2).film();
+        Film film = HeaderMaker.of(2, 2).film();
         Films.refuse("nothing", film, new Bits(), 1, 0);
         Films.refuse("between", film, new Bits().put("1000 0000"), 4, 1);
         Films.refuse("too short", film, Films.first(7).put("000"), 1, 8);
@@ -36,7 +36,7 @@ public final class FrameTest {
         int[] factors = {2, 2, 10, 25, 50, 75, 102, 2};
         int[] scales = {0, 19, 100, 250, 500, 755, 1023, 29};
         System.arraycopy(scales, 0, maker.scales, 0, 8);
-        FilmBlocks film = maker.film();
+        Film film = maker.film();
         for (int scale = 0; scale < 8; scale++) {
             Films.take("scale " + scale, film, Films.first(scale).tokens(9, 0));
             Check.due("sample by scale " + scale, 128 + Films.level(2 * factors[scale]),
@@ -45,7 +45,7 @@ public final class FrameTest {
     }
 
     private static void notCodedStays() {
-        FilmBlocks film = HeaderMaker.of(2, 1).steps(20).film();
+        Film film = HeaderMaker.of(2, 1).steps(20).film();
         Films.take("first", film, Films.first(0).tokens(9, 10, 1));
         int left = film.sample(0, 0, false);
         int right = film.sample(8, 0, false);
@@ -62,7 +62,7 @@ public final class FrameTest {
     }
 
     private static void goldenPicture() {
-        FilmBlocks film = HeaderMaker.of(1, 1).steps(20).film();
+        Film film = HeaderMaker.of(1, 1).steps(20).film();
         int one = Films.level(20);
         Films.take("first", film, Films.first(0).tokens(7, 0));
         pictures(film, 128 + one, 128 + one);
@@ -83,7 +83,7 @@ public final class FrameTest {
         pictures(film, 128 + Films.level(-40), 128 + Films.level(-40));
     }
 
-    private static void pictures(FilmBlocks film, int previous, int golden) {
+    private static void pictures(Film film, int previous, int golden) {
         Check.due("previous", previous, film.sample(0, 0, false));
         Check.due("golden", golden, film.sample(0, 0, true));
         Check.due("previous, last", previous, film.sample(7, 7, false));
@@ -91,7 +91,7 @@ public final class FrameTest {
     }
 
     private static void theTapeIsEmptyThen() {
-        FilmBlocks film = HeaderMaker.of(1, 1).film();
+        Film film = HeaderMaker.of(1, 1).film();
         Films.first(0).tokens(0).put(-1, 32).put(-1, 32).feedTo(film);
         Check.due("bits that are left do not count", 0, film.frame());
         Check.due("taken()", 10, film.taken());
@@ -100,13 +100,13 @@ public final class FrameTest {
     }
 
     private static void theFirstFaultCounts() {
-        FilmBlocks film = HeaderMaker.of(1, 1).film();
+        Film film = HeaderMaker.of(1, 1).film();
         Films.refuse("FIRST before RUN", film, new Bits().put("1 000 0 1 111 11111"), 4, 1);
         Films.take("first", film, Films.first(0).tokens(0));
         Films.refuse("RUN before END", film, new Bits().put("1 000 0 1 101"), 5, 9);
         Films.refuse("END before RUN", film, new Bits().put("1 000 0 1 11"), 1, 8);
         // Filled up to two bytes: the run needs one bit more than there are.
-        FilmBlocks wide = HeaderMaker.of(6, 6).film();
+        Film wide = HeaderMaker.of(6, 6).film();
         Films.take("first", wide, Films.first(0).tokens(4).put(21, 8));
         Films.refuse("END within a run", wide, new Bits().put("1 000 0 1 110 00 111 11"), 1, 16);
         Films.refuse("PLACE at the last bit", film, Films.first(0).tokens(6).put("111111"), 6, 16);

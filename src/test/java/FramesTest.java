@@ -1,7 +1,7 @@
 /** Promise 7: how many frames were taken since the header. */
 public final class FramesTest {
     public static void main(String[] args) {
-        FilmBlocks film = HeaderMaker.of(1, 1).film();
+        Film film = HeaderMaker.of(1, 1).film();
         Bits first = Films.first(0).tokens(0);
         Bits notCoded = Films.between().put("0 0");
         Check.due("frames() behind the header", 0, film.frames());

@@ -2,7 +2,7 @@
 public final class HeadTest {
     public static void main(String[] args) {
         String two = "0" + HeaderMaker.leaf(9) + HeaderMaker.leaf(0);
-        FilmBlocks film = HeaderMaker.of(6, 2).limit(31).trees(two, HeaderMaker.leaf(0)).film();
+        Film film = HeaderMaker.of(6, 2).limit(31).trees(two, HeaderMaker.leaf(0)).film();
         int[] due = {6, 2, 31, 2, 1};
         for (int what = 0; what < due.length; what++) {
             Check.due("head(" + what + ")", due[what], film.head(what));
@@ -11,7 +11,7 @@ public final class HeadTest {
         for (int what : wrong) {
             Check.dueThrow("head(" + what + ")", IllegalArgumentException.class,
                 () -> film.head(what));
-            FilmBlocks fresh = new FilmBlocks();
+            Film fresh = new Film();
             Check.dueThrow("head(" + what + ") without a header", IllegalStateException.class,
                 () -> fresh.head(what));
         }

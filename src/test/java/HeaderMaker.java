@@ -56,8 +56,8 @@ final class HeaderMaker {
         return beginning().put(firstTree).put(furtherTree);
     }
 
-    FilmBlocks film() {
-        FilmBlocks film = bits().feedTo(new FilmBlocks());
+    Film film() {
+        Film film = bits().feedTo(new Film());
         if (film.header() != 0) {
             throw new AssertionError("the header has a fault");
         }

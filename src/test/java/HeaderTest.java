@@ -17,7 +17,7 @@ public final class HeaderTest {
     private static void sizes() {
         for (int columns = 1; columns <= 8; columns++) {
             for (int rows = 1; rows <= 8; rows++) {
-                FilmBlocks film = new FilmBlocks();
+                Film film = new Film();
                 Bits bits = HeaderMaker.of(columns, rows).bits();
                 bits.feedTo(film);
                 boolean small = columns <= 6 && rows <= 6;
@@ -60,7 +60,7 @@ public final class HeaderTest {
 
     private static void counts(String what, String first, int firstCount, String further,
             int furtherCount) {
-        FilmBlocks film = HeaderMaker.of(1, 1).trees(first, further).film();
+        Film film = HeaderMaker.of(1, 1).trees(first, further).film();
         Check.due(what + ": first tree", firstCount, film.head(3));
         Check.due(what + ": other tree", furtherCount, film.head(4));
     }
@@ -91,7 +91,7 @@ public final class HeaderTest {
     }
 
     private static void faulty(String what, String first, String further, int fault, int taken) {
-        FilmBlocks film = new FilmBlocks();
+        Film film = new Film();
         HeaderMaker maker = HeaderMaker.of(1, 1).trees(first, further);
         maker.bits().put(0, 32).feedTo(film);
         Check.due(what, fault, film.header());
@@ -100,7 +100,7 @@ public final class HeaderTest {
     }
 
     private static void faultsChangeNothing() {
-        FilmBlocks film = HeaderMaker.of(3, 2).limit(4).film();
+        Film film = HeaderMaker.of(3, 2).limit(4).film();
         Films.take("a frame", film,
             Films.first(0).tokens(30, 31, 30, 9, 10).tokens(17).put("0 111").tokens(3).put(0, 3));
         String before = Films.state(film);
@@ -120,7 +120,7 @@ public final class HeaderTest {
     }
 
     private static void successDropsThePicture() {
-        FilmBlocks film = HeaderMaker.of(3, 2).film();
+        Film film = HeaderMaker.of(3, 2).film();
         Films.take("a frame", film, Films.first(0).tokens(4).put(0, 8));
         HeaderMaker.of(1, 2).bits().put(-1, 32).feedTo(film);
         Check.due("header() with bits left", 0, film.header());
@@ -134,7 +134,7 @@ public final class HeaderTest {
     }
 
     private static void theFirstFaultCounts() {
-        FilmBlocks film = new FilmBlocks();
+        Film film = new Film();
         new Bits().put("11111111").feedTo(film);
         Check.due("too large, then too short", 2, film.header());
         Check.due("taken()", 6, film.taken());
@@ -154,10 +154,10 @@ public final class HeaderTest {
         }
         for (int scale = 0; scale < 8; scale++) {
             for (int group = 1; group < 16; group++) {
-                FilmBlocks one = maker.film();
+                Film one = maker.film();
                 HeaderMaker alike = HeaderMaker.of(1, 1).steps(7 + 3 * group);
                 alike.scales[0] = maker.scales[scale];
-                FilmBlocks same = alike.film();
+                Film same = alike.film();
                 int place = 4 * group + scale % 4;
                 Bits tail = new Bits();
                 if (place < 9) {
@@ -174,7 +174,7 @@ public final class HeaderTest {
         }
     }
 
-    private static boolean isGrey(FilmBlocks film) {
+    private static boolean isGrey(Film film) {
         for (int i = 0; i < 64; i++) {
             if (film.sample(i % 8, i / 8, false) != 128) {
                 return false;
@@ -191,10 +191,10 @@ public final class HeaderTest {
         Bits[] all = {deep, wide};
         for (Bits bits : all) {
             Check.due("it ends with a byte", 0, bits.length() % 8);
-            FilmBlocks film = bits.feedTo(new FilmBlocks());
+            Film film = bits.feedTo(new Film());
             Check.due("3 TREE at the last bit", 3, film.header());
             Check.due("taken()", bits.length(), film.taken());
-            film = bits.first(bits.length() - 8).feedTo(new FilmBlocks());
+            film = bits.first(bits.length() - 8).feedTo(new Film());
             Check.due("1 END before it", 1, film.header());
             Check.due("taken()", bits.length() - 8, film.taken());
         }

@@ -2,8 +2,9 @@ import java.util.Random;
 
 /** Long random runs, each answer compared with the model's; what they meet is counted. */
 public final class ModelTest {
-    private static final int RUNS = 120;
-    private static final int CALLS = 110;
+    private static final int RUNS = 150;
+    // The calls that change an object; those that ask are not among them.
+    private static final int MOST_CHANGES = 300;
     // Tokens by how often they stand in a tree; long ways are rare, so that frames are taken.
     private static final int[] OFTEN = {0, 1, 1, 2, 2, 3, 4, 5, 7, 7, 8, 8, 9, 9, 10, 10, 11, 12,
         13, 14, 15, 16, 17, 18, 19, 20, 21, 22, 23, 24, 25, 26, 28, 28, 29, 29, 30, 31};
@@ -33,23 +34,28 @@ public final class ModelTest {
 
     private static void run(int seed) {
         Random random = new Random(seed);
-        FilmBlocks film = new FilmBlocks();
+        Film film = new Film();
         Model model = new Model();
-        for (int call = 0; call < CALLS; call++) {
-            boolean isHeader = call == 0 || random.nextInt(25) == 0;
-            if (isHeader) {
-                feed(headerBits(random), film, model);
-                same(seed, call, "header()", model.header(), film.header(), headerFaults);
-            } else if (film.taken() > 0 && hasHeader(film)) {
-                int blocks = film.head(0) * film.head(1);
-                feed(frameBits(random, blocks, film.frames() > 0), film, model);
-                same(seed, call, "frame()", model.frame(), film.frame(), frameFaults);
+        for (int step = 0; film.changes() < MOST_CHANGES; step++) {
+            boolean isHeader = step == 0 || random.nextInt(25) == 0 || !hasHeader(film);
+            Bits bits = isHeader ? headerBits(random)
+                : frameBits(random, film.head(0) * film.head(1), film.frames() > 0);
+            feed(bits, model);
+            int due = isHeader ? model.header() : model.frame();
+            // Bits that are left do not count: of those the film has only a few.
+            int few = Math.min(bits.length(), model.taken() + random.nextInt(40));
+            if (film.changes() + few / 128 + 3 > MOST_CHANGES) {
+                return;
             }
-            compare("run " + seed + ", call " + call, film, model, random);
+            bits.first(few).feedTo(film);
+            String what = "run " + seed + ", step " + step;
+            Check.due(what, due, isHeader ? film.header() : film.frame());
+            (isHeader ? headerFaults : frameFaults)[due]++;
+            compare(what, film, model, random);
         }
     }
 
-    private static boolean hasHeader(FilmBlocks film) {
+    private static boolean hasHeader(Film film) {
         try {
             return film.head(0) > 0;
         } catch (IllegalStateException e) {
@@ -57,13 +63,7 @@ public final class ModelTest {
         }
     }
 
-    private static void same(int seed, int call, String what, int due, int got, int[] faults) {
-        Check.due("run " + seed + ", call " + call + ": " + what, due, got);
-        faults[due]++;
-    }
-
-    private static void feed(Bits bits, FilmBlocks film, Model model) {
-        bits.feedTo(film);
+    private static void feed(Bits bits, Model model) {
         String text = bits.text();
         for (int from = 0; from < text.length(); from += 128) {
             int[] words = new int[4];
@@ -76,7 +76,7 @@ public final class ModelTest {
         model.end(bits.byteLength());
     }
 
-    private static void compare(String which, FilmBlocks film, Model model, Random random) {
+    private static void compare(String which, Film film, Model model, Random random) {
         Check.due(which + ": taken()", model.taken(), film.taken());
         Check.due(which + ": frames()", model.frames(), film.frames());
         Check.due(which + ": sum()", model.sum(), film.sum());
@@ -93,14 +93,17 @@ public final class ModelTest {
         }
         int columns = film.head(0);
         for (int i = 0; i < columns * film.head(1); i++) {
-            for (int what = 0; what < 4; what++) {
+            for (int what = 0; what < 3; what++) {
                 Check.due(which + ": block " + i + ", " + what,
                     model.block(i % columns, i / columns, what),
                     film.block(i % columns, i / columns, what));
             }
-            modes[film.block(i % columns, i / columns, 0)]++;
+            Films.number(which + ": block " + i + ", its number",
+                model.block(i % columns, i / columns, 3), film, i % columns, i / columns);
+            modes[model.block(i % columns, i / columns, 0)]++;
         }
-        for (int i = 0; i < 64 * columns * film.head(1); i += 1 + random.nextInt(7)) {
+        // sum() tells of every sample of the previous picture; of the golden one nothing else does.
+        for (int i = 0; i < 64 * columns * film.head(1); i += 1 + random.nextInt(15)) {
             int x = i % (8 * columns);
             int y = i / (8 * columns);
             Check.due(which + ": sample", model.sample(x, y, false), film.sample(x, y, false));

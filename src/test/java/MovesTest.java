@@ -20,8 +20,8 @@ public final class MovesTest {
     }
 
     /** A picture in which all samples near to one another differ. */
-    private static FilmBlocks film() {
-        FilmBlocks film = HeaderMaker.of(3, 2).steps(30).film();
+    private static Film film() {
+        Film film = HeaderMaker.of(3, 2).steps(30).film();
         Bits frame = Films.first(0).tokens(11).put("0").tokens(8, 9, 12).put("1").tokens(7, 10);
         for (int i = 0; i < 6; i++) {
             frame.tokens(i % 2 == 0 ? 11 : 12).put(i % 3 == 0 ? "1" : "0");
@@ -38,7 +38,7 @@ public final class MovesTest {
     }
 
     private static void move(int v, int w) {
-        FilmBlocks film = film();
+        Film film = film();
         int[] before = samples(film);
         Bits frame = Films.between().put("1 110 10").put("110").put(number(v)).put(number(w))
             .put("1110 1110 1110 1110 1110").tokens(3).put(0, 3);
@@ -56,7 +56,7 @@ public final class MovesTest {
         }
     }
 
-    private static int[] samples(FilmBlocks film) {
+    private static int[] samples(Film film) {
         int[] samples = new int[WIDTH * HEIGHT];
         for (int i = 0; i < samples.length; i++) {
             samples[i] = film.sample(i % WIDTH, i / WIDTH, false);
@@ -72,7 +72,7 @@ public final class MovesTest {
 
     /** Two blocks, 128 and 138; the left one comes from 7 halves to the right, and 1 below it. */
     private static void handMade() {
-        FilmBlocks film = HeaderMaker.of(2, 1).steps(40).film();
+        Film film = HeaderMaker.of(2, 1).steps(40).film();
         Films.take("two blocks", film, Films.first(0).tokens(5).put(7, 3).tokens(9, 0, 0));
         Check.due("left", 128, film.sample(7, 0, false));
         Check.due("right", 138, film.sample(8, 0, false));
@@ -95,7 +95,7 @@ public final class MovesTest {
     private static void farOutOfOneBlock() {
         for (int v = -31; v <= 31; v += 31) {
             for (int w = -31; w <= 31; w += 31) {
-                FilmBlocks film = HeaderMaker.of(1, 1).steps(60).film();
+                Film film = HeaderMaker.of(1, 1).steps(60).film();
                 Films.take("a picture", film, Films.first(0).numbers(1, -3, 2, 1, -2, 3, 1)
                     .tokens(0));
                 int[] before = new int[64];
@@ -116,7 +116,7 @@ public final class MovesTest {
 
     /** GOLDEN takes each sample from its own place, whatever has become of the previous picture. */
     private static void goldenStaysInItsPlace() {
-        FilmBlocks film = film();
+        Film film = film();
         int[] golden = samples(film);
         Films.take("all moved", film, Films.between().put("1").runs(6).put("110 10011 0 01101 1")
             .put("1110 1110 1110 1110 1110").tokens(3).put(0, 3));

@@ -1,7 +1,7 @@
 /** Promise 1: an empty tape, no header. */
 public final class NewObjectTest {
     public static void main(String[] args) {
-        FilmBlocks film = new FilmBlocks();
+        Film film = new Film();
         Check.due("taken()", 0, film.taken());
         Check.due("frames()", 0, film.frames());
         Check.due("sum()", 0, film.sum());
@@ -24,8 +24,8 @@ public final class NewObjectTest {
     }
 
     private static void anotherObject() {
-        FilmBlocks one = HeaderMaker.of(2, 3).film();
-        FilmBlocks other = new FilmBlocks();
+        Film one = HeaderMaker.of(2, 3).film();
+        Film other = new Film();
         Check.due("the one has its header", 3, one.head(1));
         Check.dueThrow("the other has none", IllegalStateException.class, () -> other.head(1));
     }

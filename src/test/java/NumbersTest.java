@@ -16,14 +16,14 @@ public final class NumbersTest {
         Check.end();
     }
 
-    private static void numbers(String what, FilmBlocks film, int columns, int[] due) {
+    private static void numbers(String what, Film film, int columns, int[] due) {
         for (int i = 0; i < due.length; i++) {
-            Check.due(what + ", " + i, due[i], film.block(i % columns, i / columns, 3));
+            Films.number(what + ", " + i, due[i], film, i % columns, i / columns);
         }
     }
 
     private static void guessesOfNewBlocks() {
-        FilmBlocks film = HeaderMaker.of(2, 2).film();
+        Film film = HeaderMaker.of(2, 2).film();
         // In order (0,0) (1,0) (1,1) (0,1): 23, -1, 2, 1.
         Films.take("new", film, Films.first(0).tokens(18).put("0 0010").tokens(8, 9, 7, 3)
             .put(0, 3));
@@ -36,7 +36,7 @@ public final class NumbersTest {
 
     /** Raster of three by two: previous, golden, moved; golden, not coded, previous. */
     private static void guessesByKind() {
-        FilmBlocks film = HeaderMaker.of(3, 2).film();
+        Film film = HeaderMaker.of(3, 2).film();
         Films.take("a picture", film, Films.first(0).tokens(3).put(0, 3));
         // In order: (0,0) previous, (1,0) golden, (1,1) not coded, (0,1) golden, (2,1) previous,
         // (2,0) moved.
@@ -61,7 +61,7 @@ public final class NumbersTest {
     }
 
     private static void halvesAreCutTowardsZero() {
-        FilmBlocks film = HeaderMaker.of(2, 2).film();
+        Film film = HeaderMaker.of(2, 2).film();
         Films.take("below 0", film, Films.first(0).tokens(9, 10, 5).put(0, 3)
             .tokens(12).put("1").tokens(3).put(0, 3));
         // (1,0): -2 + 2 = 0; (0,1): -4 + 2 = -2; (1,1): (0 - 2) / 2 = -1.
@@ -82,7 +82,7 @@ public final class NumbersTest {
         for (int[] one : all) {
             HeaderMaker maker = HeaderMaker.of(1, 1).steps(one[0]);
             maker.scales[5] = one[1];
-            FilmBlocks film = maker.film();
+            Film film = maker.film();
             Films.take("factor", film, Films.first(5).tokens(17).put("1 010").tokens(0));
             Check.due(one[0] + " by " + one[1], Films.inByte(128 + Films.level(-15 * one[2])),
                 film.sample(4, 4, false));
@@ -93,7 +93,7 @@ public final class NumbersTest {
     private static void bounds() {
         HeaderMaker maker = HeaderMaker.of(1, 1).steps(255);
         maker.scales[0] = 1023;
-        FilmBlocks film = maker.film();
+        Film film = maker.film();
         Films.take("above and below", film, Films.first(0).tokens(20).put("0 111110100")
             .tokens(27).put("1 010").tokens(0));
         Check.due("it is 2608 too much", 255, film.sample(0, 0, false));
@@ -112,26 +112,23 @@ public final class NumbersTest {
         Check.due("they add up", 0, film.sample(2, 7, false));
     }
 
-    /** Whatever the places hold, the samples come near to the sums without rounding. */
+    /** Each place holds a number: the samples are the sums of all their waves. */
     private static void sumsOfWaves() {
         Random random = new Random(7);
-        FilmBlocks film = HeaderMaker.of(1, 1).film();
         for (int run = 0; run < 200; run++) {
-            int[] numbers = new int[64];
+            Film film = HeaderMaker.of(1, 1).film();
+            int[] products = new int[64];
             Bits frame = Films.first(0);
             for (int place = 0; place < 64; place++) {
-                int size = random.nextInt(16);
-                boolean below = random.nextBoolean();
-                numbers[place] = 2 * (below ? -21 - size : 21 + size);
-                frame.tokens(18).put(below ? 1 : 0, 1).put(size, 4);
+                int number = 21 + random.nextInt(16);
+                number = random.nextBoolean() ? number : -number;
+                products[place] = 2 * number;
+                frame.numbers(number);
             }
             Films.take("sum", film, frame);
             for (int i = 0; i < 64; i++) {
-                double exact = 128 + Waves.exact(numbers, i % 8, i / 8);
-                double away = exact - film.sample(i % 8, i / 8, false);
-                Check.due("run " + run + ", sample " + i + " is " + away + " away",
-                    Math.abs(Math.max(0, Math.min(255, exact))
-                        - film.sample(i % 8, i / 8, false)) < 2.5);
+                int due = Films.inByte(128 + Waves.added(products, i % 8, i / 8));
+                Check.due("run " + run + ", sample " + i, due, film.sample(i % 8, i / 8, false));
             }
         }
     }
@@ -139,7 +136,7 @@ public final class NumbersTest {
     /** 0 without: of no kind does a guess come from an earlier frame, nor from another kind. */
     private static void noneOfItsKindInThisFrame() {
         String[] modes = {"0", "10", "1111", "110 00001 0 00000 0"};
-        FilmBlocks film = HeaderMaker.of(2, 1).film();
+        Film film = HeaderMaker.of(2, 1).film();
         Films.take("a picture", film, Films.first(0).numbers(3, 4).tokens(1));
         for (String mode : modes) {
             for (int times = 0; times < 3; times++) {
@@ -165,8 +162,8 @@ public final class NumbersTest {
 
     /** The sum of the left and the upper one, halved, cut towards 0. */
     private static void halvesOfAllSigns() {
-        FilmBlocks film = HeaderMaker.of(2, 2).film();
         for (int left = -7; left <= 7; left++) {
+            Film film = HeaderMaker.of(2, 2).film();
             for (int above = -7; above <= 7; above++) {
                 // The first has 20; in order it is followed by (1,0), (1,1), (0,1).
                 Films.take("halves", film, Films.first(0).numbers(20, above - 20).tokens(5)
@@ -181,9 +178,9 @@ public final class NumbersTest {
     private static void largestFactor() {
         HeaderMaker maker = HeaderMaker.of(1, 1).steps(255);
         maker.scales[7] = 1023;
-        FilmBlocks film = maker.film();
         int wouldDiffer = 0;
         for (int first = 1; first <= 12; first++) {
+            Film film = maker.film();
             for (int second = -12; second < 0; second++) {
                 Films.take("largest", film, Films.first(7).numbers(first, second).tokens(0));
                 for (int i = 0; i < 64; i++) {
@@ -213,7 +210,7 @@ public final class NumbersTest {
             int[] added = {-300, -base - 1, -base, -base + 1, 254 - base, 255 - base, 256 - base,
                 300};
             for (int one : added) {
-                FilmBlocks film = HeaderMaker.of(1, 1).steps(8).film();
+                Film film = HeaderMaker.of(1, 1).steps(8).film();
                 Films.take("grey", film, Films.first(0).numbers(-10).tokens(0));
                 Check.due("grey", grey, film.sample(3, 3, false));
                 // Eight times a number is what comes, at factor 8: 64 times 1/8.

@@ -1,7 +1,7 @@
 /** Promise 8: a sample of the previous picture, or of the golden one. */
 public final class SampleTest {
     public static void main(String[] args) {
-        FilmBlocks film = HeaderMaker.of(2, 3).film();
+        Film film = HeaderMaker.of(2, 3).film();
         Check.dueThrow("no picture", IllegalStateException.class, () -> film.sample(-1, 0, false));
         // 21 in the first block, 36 and the guess in the second one, all others guess.
         Films.take("a frame", film, Films.first(0).tokens(18).put("0 0000").tokens(18).put("0 1111")
@@ -17,7 +17,7 @@ public final class SampleTest {
         Check.end();
     }
 
-    private static void places(FilmBlocks film) {
+    private static void places(Film film) {
         film.sample(15, 23, false);
         film.sample(15, 23, true);
         int[][] wrong = {{-1, 0}, {0, -1}, {16, 0}, {0, 24}, {16, 24}, {23, 15},
@@ -32,7 +32,7 @@ public final class SampleTest {
         }
     }
 
-    private static void bothPictures(FilmBlocks film) {
+    private static void bothPictures(Film film) {
         int before = film.sample(0, 0, false);
         // Six previous blocks; the first one has 20 less, the other ones guess the same.
         Films.take("darker by 20", film, Films.between().put("1 110 10").put("000000")

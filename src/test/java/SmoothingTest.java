@@ -13,7 +13,7 @@ public final class SmoothingTest {
     }
 
     /** Two blocks side by side or one above the other, of 128 and so far above it. */
-    private static FilmBlocks pair(boolean upright, int limit, int apart) {
+    private static Film pair(boolean upright, int limit, int apart) {
         for (int size = 1; size <= 36; size++) {
             for (int step = 2; step < 256; step++) {
                 int number = apart < 0 ? -size : size;
@@ -25,8 +25,8 @@ public final class SmoothingTest {
         throw new AssertionError("no number brings " + apart);
     }
 
-    private static FilmBlocks pair(boolean upright, int limit, int step, int number) {
-        FilmBlocks film = HeaderMaker.of(upright ? 2 : 1, upright ? 1 : 2).limit(limit).steps(step)
+    private static Film pair(boolean upright, int limit, int step, int number) {
+        Film film = HeaderMaker.of(upright ? 2 : 1, upright ? 1 : 2).limit(limit).steps(step)
             .film();
         Films.take("a pair", film, Films.first(0).tokens(5).put(7, 3)
             .numbers(number).tokens(0, 0));
@@ -82,7 +82,7 @@ public final class SmoothingTest {
     private static void edge(int apart, int limit, int change) {
         for (int i = 0; i < 2; i++) {
             boolean upright = i == 0;
-            FilmBlocks film = pair(upright, limit, apart);
+            Film film = pair(upright, limit, apart);
             String what = apart + " apart, LIMIT " + limit + (upright ? ", upright" : ", level");
             for (int line = 0; line < 8; line++) {
                 Check.due(what + ": a", 128, at(film, upright, line, 6));
@@ -94,7 +94,7 @@ public final class SmoothingTest {
         }
     }
 
-    private static int at(FilmBlocks film, boolean upright, int line, int across) {
+    private static int at(Film film, boolean upright, int line, int across) {
         return upright ? film.sample(across, line, true) : film.sample(line, across, true);
     }
 
@@ -108,8 +108,8 @@ public final class SmoothingTest {
                 frame.tokens(17).put(random.nextInt(16), 4);
             }
             frame.tokens(1);
-            FilmBlocks plain = HeaderMaker.of(2, 1).steps(15).film();
-            FilmBlocks smooth = HeaderMaker.of(2, 1).steps(15).limit(31).film();
+            Film plain = HeaderMaker.of(2, 1).steps(15).film();
+            Film smooth = HeaderMaker.of(2, 1).steps(15).limit(31).film();
             Films.take("plain", plain, frame);
             Films.take("smooth", smooth, frame);
             beyond |= sameButSmooth("run " + run, plain, smooth, 31);
@@ -118,7 +118,7 @@ public final class SmoothingTest {
     }
 
     /** Compares b and c of each line; tells by bits which of them went beyond which bound. */
-    private static int sameButSmooth(String what, FilmBlocks plain, FilmBlocks smooth, int limit) {
+    private static int sameButSmooth(String what, Film plain, Film smooth, int limit) {
         int beyond = 0;
         for (int y = 0; y < 8; y++) {
             int b = plain.sample(7, y, false);
@@ -149,7 +149,7 @@ public final class SmoothingTest {
     private static void edgesOfOneBlock() {
         int limit = 31;
         int[][] picture = new int[24][24];
-        FilmBlocks film = nine(limit, picture);
+        Film film = nine(limit, picture);
         // In order 0 1 4 3 6 7 8 5 2 of the raster: the third one.
         Films.take("the middle one", film, Films.between().put("0 100 0 110 10").put("0")
             .tokens(0));
@@ -182,8 +182,8 @@ public final class SmoothingTest {
         same("all", picture, film);
     }
 
-    private static FilmBlocks nine(int limit, int[][] picture) {
-        FilmBlocks film = HeaderMaker.of(3, 3).limit(limit).steps(40).film();
+    private static Film nine(int limit, int[][] picture) {
+        Film film = HeaderMaker.of(3, 3).limit(limit).steps(40).film();
         Bits frame = Films.first(0);
         for (int i = 0; i < 9; i++) {
             frame.tokens(15).put(i * 5 % 3 == 0 ? 1 : 0, 1).put(i % 2, 1);
@@ -196,14 +196,14 @@ public final class SmoothingTest {
         return film;
     }
 
-    private static void copy(FilmBlocks film, int[][] picture) {
+    private static void copy(Film film, int[][] picture) {
         int width = picture[0].length;
         for (int i = 0; i < width * picture.length; i++) {
             picture[i / width][i % width] = film.sample(i % width, i / width, false);
         }
     }
 
-    private static void same(String what, int[][] picture, FilmBlocks film) {
+    private static void same(String what, int[][] picture, Film film) {
         int width = picture[0].length;
         for (int i = 0; i < width * picture.length; i++) {
             int x = i % width;
@@ -229,7 +229,7 @@ public final class SmoothingTest {
 
     private static void notCodedAlone() {
         int[][] picture = new int[24][24];
-        FilmBlocks film = nine(20, picture);
+        Film film = nine(20, picture);
         Films.take("none", film, Films.between().put("0 111 00001"));
         same("none", picture, film);
     }
@@ -242,7 +242,7 @@ public final class SmoothingTest {
                 coded[i] = (pattern >> i & 1) == 1;
             }
             int[][] picture = new int[24][24];
-            FilmBlocks film = nine(31, picture);
+            Film film = nine(31, picture);
             takeCoded("pattern " + pattern, film, 3, coded);
             smoothAll(picture, coded, 31);
             same("pattern " + pattern, picture, film);
@@ -250,7 +250,7 @@ public final class SmoothingTest {
     }
 
     /** The coded blocks are as in the previous picture, but for their edges. */
-    private static void takeCoded(String what, FilmBlocks film, int columns, boolean[] coded) {
+    private static void takeCoded(String what, Film film, int columns, boolean[] coded) {
         Bits frame = Films.between().put(Films.flags(columns, coded).text());
         int count = 0;
         for (boolean one : coded) {
@@ -291,7 +291,7 @@ public final class SmoothingTest {
             int rows = 1 + size / 6 % 6;
             int limit = size < 36 ? 0 : 1 + random.nextInt(31);
             int[][] picture = new int[8 * rows][8 * columns];
-            FilmBlocks film = rough(random, columns, rows, limit);
+            Film film = rough(random, columns, rows, limit);
             copy(film, picture);
             boolean[] coded = new boolean[columns * rows];
             for (int i = 0; i < coded.length; i++) {
@@ -306,8 +306,8 @@ public final class SmoothingTest {
         }
     }
 
-    private static FilmBlocks rough(Random random, int columns, int rows, int limit) {
-        FilmBlocks film = HeaderMaker.of(columns, rows).limit(limit).steps(30).film();
+    private static Film rough(Random random, int columns, int rows, int limit) {
+        Film film = HeaderMaker.of(columns, rows).limit(limit).steps(30).film();
         Bits frame = Films.first(0);
         for (int i = 0; i < 3 * columns * rows; i++) {
             int size = 1 + random.nextInt(12);

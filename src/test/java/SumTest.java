@@ -1,7 +1,7 @@
 /** Promise 11: of all samples, in raster of the whole picture. */
 public final class SumTest {
     public static void main(String[] args) {
-        FilmBlocks film = new FilmBlocks();
+        Film film = new Film();
         Check.due("of a new object", 0, film.sum());
         HeaderMaker.of(3, 2).bits().feedTo(film);
         film.header();
@@ -34,7 +34,7 @@ public final class SumTest {
         Check.end();
     }
 
-    private static int sum(FilmBlocks film, int width, int height) {
+    private static int sum(Film film, int width, int height) {
         int sum = 0;
         for (int y = 0; y < height; y++) {
             for (int x = 0; x < width; x++) {
@@ -49,7 +49,7 @@ public final class SumTest {
         int above = 0;
         int below = 0;
         for (int number = -20; number <= 20; number++) {
-            FilmBlocks film = HeaderMaker.of(6, 6).steps(60).film();
+            Film film = HeaderMaker.of(6, 6).steps(60).film();
             Bits frame = Films.first(0);
             Films.take("a picture", film, (number == 0 ? frame : frame.numbers(number)).tokens(4)
                 .put(255, 8));

@@ -1,7 +1,7 @@
 /** Promise 10: how many bits the latest header or frame took. */
 public final class TakenTest {
     public static void main(String[] args) {
-        FilmBlocks film = new FilmBlocks();
+        Film film = new Film();
         Bits header = HeaderMaker.of(2, 1).bits();
         header.feedTo(film);
         Check.due("taken() before it is read", 0, film.taken());
@@ -35,11 +35,11 @@ public final class TakenTest {
         Check.end();
     }
 
-    private static void callsThatThrow(FilmBlocks film) {
+    private static void callsThatThrow(Film film) {
         Check.dueThrow("head", IllegalArgumentException.class, () -> film.head(5));
         Check.dueThrow("end", IllegalArgumentException.class, () -> film.end(17));
         Check.dueThrow("sample", IndexOutOfBoundsException.class, () -> film.sample(16, 0, false));
-        FilmBlocks fresh = new FilmBlocks();
+        Film fresh = new Film();
         new Bits().put(0, 8).feedTo(fresh);
         fresh.header();
         fresh.feed(0, 0, 0, 0);
@@ -50,7 +50,7 @@ public final class TakenTest {
 
     /** A frame of many parts, cut behind each byte: END, and all that was there is taken. */
     private static void everyEnd() {
-        FilmBlocks film = HeaderMaker.of(2, 2).film();
+        Film film = HeaderMaker.of(2, 2).film();
         Films.take("a picture", film, Films.first(0).tokens(3).put(0, 3));
         Bits frame = Films.between().put("1 110 00").put("110").put(9, 5).put(1, 1).put(3, 5)
             .put("0 1110 1111 10").tokens(20).put(1, 1).put(77, 9).tokens(29).put("1 0 1")

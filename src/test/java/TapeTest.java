@@ -13,7 +13,7 @@ public final class TapeTest {
     }
 
     private static void nothing() {
-        FilmBlocks film = new FilmBlocks();
+        Film film = new Film();
         Check.due("header() of nothing", 1, film.header());
         Check.due("it takes none", 0, film.taken());
         HeaderMaker.of(1, 1).bits().feedTo(film);
@@ -32,7 +32,7 @@ public final class TapeTest {
         // A frame that is not between has five bits; behind them come tokens of one bit and of two.
         String tree = "0" + HeaderMaker.leaf(7) + "0" + HeaderMaker.leaf(0) + HeaderMaker.leaf(8);
         for (int bytes = 1; bytes <= 8; bytes++) {
-            FilmBlocks film = HeaderMaker.of(1, 1).trees(tree, tree).film();
+            Film film = HeaderMaker.of(1, 1).trees(tree, tree).film();
             Bits frame = Films.first(0).put(0, 8 * bytes - 5 - 2).put("10");
             Films.take(bytes + " bytes", film, frame);
             int less = frame.length() - 8;
@@ -47,11 +47,11 @@ public final class TapeTest {
         String comb = HeaderMaker.leaf(0);
         for (int tokens = 1; tokens <= 8; tokens++) {
             Bits bits = HeaderMaker.of(2, 2).trees(HeaderMaker.leaf(0), comb).bits();
-            FilmBlocks film = bits.feedTo(new FilmBlocks());
+            Film film = bits.feedTo(new Film());
             Check.due("header() of " + bits.length() + " bits", 0, film.header());
             Check.due("taken()", bits.length(), film.taken());
             if (bits.length() % 8 == 0) {
-                film = bits.first(bits.length() - 8).feedTo(new FilmBlocks());
+                film = bits.first(bits.length() - 8).feedTo(new Film());
                 Check.due("one byte less", 1, film.header());
                 Check.due("taken()", bits.length() - 8, film.taken());
             }
@@ -63,15 +63,24 @@ public final class TapeTest {
     private static void theFullestTape() {
         String tree = "0".repeat(12) + HeaderMaker.leaf(20) + HeaderMaker.leaf(20)
             + HeaderMaker.leaf(0).repeat(9) + HeaderMaker.leaf(8) + HeaderMaker.leaf(7);
-        FilmBlocks film = HeaderMaker.of(6, 6).trees(tree, tree).film();
+        HeaderMaker maker = HeaderMaker.of(6, 6).trees(tree, tree);
+        Film film = maker.film();
         Bits frame = longFrame(16);
         Check.due("it is as long as can be", MOST_BITS, frame.length());
         Films.take("48000 bits", film, frame);
         Check.due("the first number", 101, film.block(0, 0, 3));
         frame = longFrame(17);
         Check.due("it is too long", MOST_BITS + 1, frame.length());
-        Films.refuse("48001 bits", film, frame.first(MOST_BITS), 1, MOST_BITS);
-        Films.refuse("zeros alone", film, new Bits().put("0".repeat(MOST_BITS)), 1, MOST_BITS);
+        Films.refuse("48001 bits", withPicture(maker), frame.first(MOST_BITS), 1, MOST_BITS);
+        Films.refuse("zeros alone", withPicture(maker),
+            new Bits().put("0".repeat(MOST_BITS)), 1, MOST_BITS);
+    }
+
+    /** Each block has one number, and ends. */
+    private static Film withPicture(HeaderMaker maker) {
+        Film film = maker.film();
+        Films.take("a picture", film, Films.first(0).put("01".repeat(36)).put("001".repeat(36)));
+        return film;
     }
 
     private static Bits longFrame(int ofTwoBits) {
@@ -89,7 +98,7 @@ public final class TapeTest {
     /** Each bit of sixteen bytes alone: width and height tell the first six, END all of them. */
     private static void bitsAreOfTheirBytes() {
         for (int bit = 0; bit < 6; bit++) {
-            FilmBlocks film = new FilmBlocks();
+            Film film = new Film();
             // The bit, zeros, and two trees of one token each.
             new Bits().put(0, bit).put(1, 1).put("0".repeat(218 - bit)).put("100000 100000")
                 .feedTo(film);
@@ -97,7 +106,7 @@ public final class TapeTest {
             Check.due("width by bit " + bit, 1 + (bit < 3 ? 4 >> bit : 0), film.head(0));
             Check.due("height by bit " + bit, 1 + (bit < 3 ? 0 : 32 >> bit), film.head(1));
         }
-        FilmBlocks film = new FilmBlocks();
+        Film film = new Film();
         for (int bytes = 0; bytes <= 16; bytes++) {
             film.feed(0, 0, 0, 0);
             film.end(bytes);
@@ -107,7 +116,7 @@ public final class TapeTest {
     }
 
     private static void emptyBehindAnyFault() {
-        FilmBlocks film = HeaderMaker.of(1, 1).film();
+        Film film = HeaderMaker.of(1, 1).film();
         Bits[] headers = {new Bits().put(0, 8), new Bits().put("111 000 00"),
             new Bits().put("0".repeat(320))};
         int[] faults = {1, 2, 3};

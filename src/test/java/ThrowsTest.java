@@ -12,7 +12,7 @@ public final class ThrowsTest {
         Check.end();
     }
 
-    private static void allThrow(FilmBlocks film, int bytes, Class<?> ofHead, Class<?> ofPlace,
+    private static void allThrow(Film film, int bytes, Class<?> ofHead, Class<?> ofPlace,
             Class<?> ofWhat) {
         Check.dueThrow("end(-1)", ARGUMENT, () -> film.end(-1));
         Check.dueThrow("end, one too many", ARGUMENT, () -> film.end(bytes + 1));
@@ -27,7 +27,7 @@ public final class ThrowsTest {
     }
 
     private static void withoutHeader() {
-        FilmBlocks film = new FilmBlocks();
+        Film film = new Film();
         Bits header = HeaderMaker.of(2, 1).limit(3).bits();
         header.feedTo(film);
         Check.dueThrow("frame()", STATE, () -> film.frame());
@@ -41,7 +41,7 @@ public final class ThrowsTest {
     }
 
     private static void withoutPicture() {
-        FilmBlocks film = HeaderMaker.of(2, 1).film();
+        Film film = HeaderMaker.of(2, 1).film();
         int taken = film.taken();
         Bits frame = Films.first(0).numbers(50, 10).tokens(1);
         frame.feedTo(film);
@@ -53,7 +53,7 @@ public final class ThrowsTest {
     }
 
     private static void withPicture() {
-        FilmBlocks film = HeaderMaker.of(2, 1).film();
+        Film film = HeaderMaker.of(2, 1).film();
         Films.take("a picture", film, Films.first(0).numbers(50, 10).tokens(1));
         String before = Films.state(film);
         int taken = film.taken();
@@ -68,7 +68,7 @@ public final class ThrowsTest {
     }
 
     private static void fullTape() {
-        FilmBlocks film = new FilmBlocks();
+        Film film = new Film();
         Bits header = HeaderMaker.of(2, 1).limit(17).bits();
         header.feedTo(film);
         int bytes = header.byteLength();

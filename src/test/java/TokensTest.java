@@ -18,7 +18,7 @@ public final class TokensTest {
         Check.end();
     }
 
-    private static FilmBlocks film() {
+    private static Film film() {
         return HeaderMaker.of(1, 1).steps(FACTOR).film();
     }
 
@@ -41,7 +41,7 @@ public final class TokensTest {
     /** Reads a token and its bits at a place; a number, if it is not 0, is due at another. */
     private static void brings(int from, int token, String bits, int place, int number) {
         boolean ends = token >= 30 || place >= 63 && number != 0 || place >= 64;
-        FilmBlocks film = film();
+        Film film = film();
         Bits frame = at(from).tokens(token).put(bits);
         String what = "token " + token + " " + bits + " at " + from;
         Films.take(what, film, ends ? frame : frame.tokens(0));
@@ -119,7 +119,7 @@ public final class TokensTest {
         int[] bits = {0, 0, 2, 3, 8};
         for (int token = 0; token < 5; token++) {
             for (int more = 0; more < 1 << bits[token]; more++) {
-                FilmBlocks film = HeaderMaker.of(6, 6).film();
+                Film film = HeaderMaker.of(6, 6).film();
                 Bits frame = Films.first(0).tokens(token).put(more, bits[token]);
                 for (int i = 1 + least[token] + more; i < 36; i++) {
                     frame.tokens(0);
@@ -130,7 +130,7 @@ public final class TokensTest {
     }
 
     private static void endingsGoOnAtTheNextPlace() {
-        FilmBlocks film = HeaderMaker.of(3, 1).steps(FACTOR).film();
+        Film film = HeaderMaker.of(3, 1).steps(FACTOR).film();
         // Two numbers, the third block ends, and of the two that are left one more.
         Films.take("1 more", film, Films.first(0).tokens(9, 10, 1, 30));
         Check.due("the first has no number at place 1", film.sample(0, 0, false),
@@ -146,14 +146,14 @@ public final class TokensTest {
     }
 
     private static void nothingIsLeftToEnd() {
-        FilmBlocks film = HeaderMaker.of(1, 1).steps(FACTOR).film();
+        Film film = HeaderMaker.of(1, 1).steps(FACTOR).film();
         Films.take("269 more are to end", film, Films.first(0).tokens(4).put(255, 8));
         Films.take("not in the next frame", film, Films.first(0).tokens(9, 0));
         Check.due("its number", 2, film.block(0, 0, 3));
     }
 
     private static void places() {
-        FilmBlocks film = film();
+        Film film = film();
         Bits all = Films.first(0);
         for (int place = 0; place < 64; place++) {
             all.tokens(7);
@@ -171,7 +171,7 @@ public final class TokensTest {
     }
 
     private static void beyondTheLastPlace() {
-        FilmBlocks film = film();
+        Film film = film();
         Films.take("a picture", film, at(63).tokens(7));
         beyond(film, 57, 5, "111");
         beyond(film, 63, 5, "001");
@@ -192,7 +192,7 @@ public final class TokensTest {
         beyond(film, 63, 29, "111");
     }
 
-    private static void beyond(FilmBlocks film, int from, int token, String bits) {
+    private static void beyond(Film film, int from, int token, String bits) {
         Bits frame = at(from).tokens(token).put(bits);
         Films.refuse("token " + token + " " + bits + " at " + from, film,
             new Bits().put(frame.text()).put(0, 32), 6, frame.length());
@@ -208,7 +208,7 @@ public final class TokensTest {
         String first = "0" + HeaderMaker.leaf(5) + HeaderMaker.leaf(9);
         String further = "0" + HeaderMaker.leaf(30) + "0" + HeaderMaker.leaf(0)
             + HeaderMaker.leaf(8);
-        FilmBlocks film = HeaderMaker.of(2, 1).trees(first, further).steps(FACTOR).film();
+        Film film = HeaderMaker.of(2, 1).trees(first, further).steps(FACTOR).film();
         // Place 0: 5 and 8 places for the one, 2 for the other; then -1, end; at 8: 1 and end.
         Films.take("two trees", film, Films.first(0).put("0 111 1 11 10 0"));
         Check.due("the first", 0, film.block(0, 0, 3));
@@ -221,17 +221,21 @@ public final class TokensTest {
             + HeaderMaker.leaf(0).repeat(11);
         String ones = ("0" + HeaderMaker.leaf(0)).repeat(11) + "0" + HeaderMaker.leaf(8)
             + HeaderMaker.leaf(10);
-        FilmBlocks film = HeaderMaker.of(2, 1).trees(zeros, ones).steps(FACTOR).film();
+        Film film = HeaderMaker.of(2, 1).trees(zeros, ones).steps(FACTOR).film();
         Films.take("twelve bits for a token", film, Films.first(0).put("0".repeat(12))
             .put("0".repeat(11)).put("1").put("1".repeat(12)).put("1".repeat(11)).put("0 0 0"));
         Check.due("by 12 bits 0", 1, film.block(0, 0, 3));
         Check.due("by 11 bits 0 and a bit 1", 3, film.block(1, 0, 3));
-        int level = Waves.alone(0, FACTOR, 0, 0) + Waves.alone(1, -2 * FACTOR, 0, 0);
-        Check.due("by 12 bits 1", Math.abs(128 + level - film.sample(0, 0, false)) <= 1);
+        int[] products = new int[64];
+        products[0] = FACTOR;
+        products[1] = -2 * FACTOR;
+        for (int x = 0; x < 8; x++) {
+            Check.due("by 12 bits 1", 128 + Waves.added(products, x, 0), film.sample(x, 0, false));
+        }
     }
 
     private static void treesOfOneToken() {
-        FilmBlocks film = HeaderMaker.of(6, 6).trees(HeaderMaker.leaf(7), HeaderMaker.leaf(0))
+        Film film = HeaderMaker.of(6, 6).trees(HeaderMaker.leaf(7), HeaderMaker.leaf(0))
             .film();
         Films.take("no bits at all for tokens", film, Films.first(0));
         Check.due("it has them still", 1, film.block(0, 0, 3));
@@ -247,7 +251,7 @@ public final class TokensTest {
     private static void firstTreeForPlaceZeroAlone() {
         String two = "0" + HeaderMaker.leaf(0) + HeaderMaker.leaf(7);
         for (int blocks = 1; blocks <= 6; blocks += 5) {
-            FilmBlocks film = HeaderMaker.of(blocks, 1).trees(HeaderMaker.leaf(7), two).film();
+            Film film = HeaderMaker.of(blocks, 1).trees(HeaderMaker.leaf(7), two).film();
             for (int places = 1; places < 64; places++) {
                 Bits frame = Films.first(0).put("1".repeat(blocks * (places - 1)));
                 Films.take(places + " numbers each", film, frame.put("0".repeat(blocks)));

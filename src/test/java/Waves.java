@@ -40,17 +40,4 @@ final class Waves {
         }
         return (int) Math.floorDiv(column, 32768L);
     }
-
-    /** What 64 numbers add to sample (x, y), without any rounding. */
-    static double exact(int[] numbers, int x, int y) {
-        double sum = 0;
-        for (int spot = 0; spot < 64; spot++) {
-            sum += numbers[PLACES[spot]] * wave(x, spot % 8) * wave(y, spot / 8);
-        }
-        return sum;
-    }
-
-    private static double wave(int x, int u) {
-        return u == 0 ? Math.sqrt(0.125) : Math.cos((2 * x + 1) * u * Math.PI / 16) / 2;
-    }
 }

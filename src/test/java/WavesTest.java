@@ -22,7 +22,7 @@ public final class WavesTest {
         int factor = Math.max(2, step * scale / 100);
         HeaderMaker maker = HeaderMaker.of(6, 6).steps(step);
         maker.scales[0] = scale;
-        FilmBlocks film = maker.film();
+        Film film = maker.film();
         int[] order = Films.order(6, 6);
         int[][] products = new int[36][64];
         Bits frame = Films.first(0);
@@ -45,7 +45,7 @@ public final class WavesTest {
         return Math.max(-32768, Math.min(32767, number * factor));
     }
 
-    private static void same(String what, FilmBlocks film, int block, int[] products) {
+    private static void same(String what, Film film, int block, int[] products) {
         for (int i = 0; i < 64; i++) {
             int due = Films.inByte(128 + Waves.added(products, i % 8, i / 8));
             Check.due(what + ", sample " + i, due,
@@ -61,7 +61,7 @@ public final class WavesTest {
         for (int place = 1; place < 64; place++) {
             for (int number = 11; number <= 14; number++) {
                 for (int sign = -1; sign <= 1; sign += 2) {
-                    FilmBlocks film = maker.film();
+                    Film film = maker.film();
                     Bits frame = Films.first(0).numbers(sign * number);
                     int[] products = new int[64];
                     products[0] = product(sign * number, factor);
